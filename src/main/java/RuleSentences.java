@@ -155,6 +155,7 @@ public final class RuleSentences {
     private final Book book;
     private final Commands commands;
     private final Tokens tokens;
+    private final Grammar grammar;
     private final Reader reader;
     private final Turns turns;
     private byte[] tape;
@@ -168,7 +169,8 @@ public final class RuleSentences {
         book = new Book(vocabulary);
         tokens = new Tokens();
         commands = new Commands(tokens, vocabulary, world);
-        reader = new Reader(tokens, world, book, commands);
+        grammar = new Grammar(tokens);
+        reader = new Reader(tokens, grammar, world, book, commands);
         turns = new Turns(world, book);
         tape = new byte[TAPE_MOST];
         story = new byte[TAPE_MOST];
@@ -207,11 +209,20 @@ public final class RuleSentences {
         int sentences = 0;
         int at = tokens.skip(0);
         while (at < length && tokens.fault == 0) {
-            at = tokens.skip(reader.sentence(at));
+            at = tokens.skip(tokens.takeSentence(at));
             sentences++;
+            if (tokens.endsBadly()) {
+                tokens.wrong(1, tokens.lastRow());
+            } else if (!grammar.check()) {
+                tokens.wrong(2, grammar.at);
+            } else if (grammar.sort < 9) {
+                reader.beginSentence();
+            } else {
+                reader.tellSentence();
+            }
         }
         if (sentences == 0) {
-            tokens.wrongAtEnd(2);
+            tokens.wrong(2, NONE);
         }
         latestFault = tokens.fault;
         if (latestFault != 0) {
@@ -540,41 +551,34 @@ public final class RuleSentences {
             return NONE;
         }
 
+        /** Byte k of a name; NONE. */
         int nameByte(int sort, int which, int k) {
-            int entry = entryOf(sort, which);
             int left = k;
-            for (int i = 0; i < NAME_MOST && entry != NONE && left >= 0; i++) {
-                long word = words[NAME_MOST * entry + i];
-                if (word == 0) {
-                    return NONE;
+            for (int i = 0; i < NAME_MOST * entries && left >= 0; i++) {
+                long word = words[i];
+                if (word == 0 || sorts[i / NAME_MOST] != sort || whiches[i / NAME_MOST] != which) {
+                    continue;
                 }
-                if (i > 0 && left == 0) {
+                boolean first = i % NAME_MOST == 0;
+                if (!first && left == 0) {
                     return ' ';
                 }
-                left -= i > 0 ? 1 : 0;
-                int length = lettersIn(word);
+                left -= first ? 0 : 1;
+                int length = 1;
+                long unit = 1;
+                while (unit <= word / LETTER_BASE) {
+                    unit *= LETTER_BASE;
+                    length++;
+                }
                 if (left < length) {
-                    return letterFrom(word, length - 1 - left);
+                    for (int n = 0; n < left; n++) {
+                        unit /= LETTER_BASE;
+                    }
+                    return 'a' - 1 + (int) (word / unit % LETTER_BASE);
                 }
                 left -= length;
             }
             return NONE;
-        }
-
-        private static int lettersIn(long word) {
-            int n = 0;
-            for (long rest = word; rest > 0; rest /= LETTER_BASE) {
-                n++;
-            }
-            return n;
-        }
-
-        private static int letterFrom(long word, int behind) {
-            long rest = word;
-            for (int i = 0; i < behind; i++) {
-                rest /= LETTER_BASE;
-            }
-            return 'a' - 1 + (int) (rest % LETTER_BASE);
         }
 
         /** Whether a kind is another one or below it. */
@@ -1291,17 +1295,13 @@ public final class RuleSentences {
             faultPlace = 0;
         }
 
-        /** Notes the first fault; always false, which is what a check answers then. */
+        /** Notes the first fault, at a row (NONE: at the tape's end); always false, as a check answers then. */
         boolean wrong(int code, int row) {
             if (fault == 0) {
                 fault = code;
                 faultPlace = row >= 0 && row < rows ? places[row] : end;
             }
             return false;
-        }
-
-        void wrongAtEnd(int code) {
-            wrong(code, NONE);
         }
 
         int typeAt(int row) {
@@ -1491,7 +1491,7 @@ public final class RuleSentences {
         }
 
         /** The row behind the FREE words that stand at a row. */
-        int runEnd(int from, int limit) {
+        int runEndUpTo(int from, int limit) {
             int row = from;
             while (row >= 0 && row < limit && row < rows && types[row] == FREE) {
                 row++;
@@ -1500,26 +1500,22 @@ public final class RuleSentences {
         }
 
         int runEnd(int from) {
-            return runEnd(from, rows);
+            return runEndUpTo(from, rows);
         }
 
-        /** The first FREE word from a row on; the limit, if there is none. */
-        int nextRun(int from, int limit) {
-            int row = from;
-            while (row >= 0 && row < limit && row < rows && types[row] != FREE) {
-                row++;
-            }
-            return row;
+        /** Whether a RUN begins at a row, of those from another row on. */
+        boolean beginsRun(int row, int from) {
+            return row >= from && row < rows && types[row] == FREE && (row == from || types[row - 1] != FREE);
         }
 
-        /** Behind a row: that row, or the next one, if there is an ART. */
+        /** A row, or the next one, if there is an ART. */
         int behindArt(int row) {
             return isArt(typeAt(row)) ? row + 1 : row;
         }
 
         /** Whether the RUN of stands at a row. */
         boolean beginsProperty(int row) {
-            return typeAt(row) == KEY_THE && typeAt(row + 1) == FREE && typeAt(runEnd(row + 1, rows)) == KEY_OF;
+            return typeAt(row) == KEY_THE && typeAt(row + 1) == FREE && typeAt(runEndUpTo(row + 1, rows)) == KEY_OF;
         }
 
         int firstOf(int type, int from, int to) {
@@ -1567,6 +1563,7 @@ public final class RuleSentences {
         }
 
         boolean check() {
+            boolean good;
             at = 1;
             switch (t.typeAt(0)) {
                 case TEXT:
@@ -1574,39 +1571,44 @@ public final class RuleSentences {
                     return true;
                 case KEY_UNDERSTAND:
                     sort = 1;
-                    return eat(TEXT) && eat(KEY_AS) && eatRun() && eat(DOT);
+                    return take(TEXT) && take(KEY_AS) && takeRun() && take(DOT);
                 case KEY_DEFINITION:
                     sort = 2;
-                    return eat(COLON) && eatArt() && eatRun() && eat(KEY_IS) && eatRun() && eat(KEY_IF)
-                        && eatTests() && eat(DOT);
+                    return take(COLON) && takeArt() && takeRun() && take(KEY_IS) && takeRun() && take(KEY_IF)
+                        && takeTests() && take(DOT);
                 case KEY_BEFORE:
                     sort = 3;
-                    return eatActing() && eatRuleBody();
+                    good = takeActing();
+                    break;
                 case KEY_AFTER:
                     sort = 4;
-                    return eatActing() && eatRuleBody();
+                    good = takeActing();
+                    break;
                 case KEY_INSTEAD:
                     sort = 5;
-                    return eat(KEY_OF) && eatActing() && eatRuleBody();
+                    good = take(KEY_OF) && takeActing();
+                    break;
                 case KEY_EVERY:
                     sort = 6;
-                    return eat(KEY_TURN) && eatRuleBody();
+                    good = take(KEY_TURN);
+                    break;
                 default:
                     return checkOthers();
             }
+            return good && (!take(KEY_WHEN) || takeTests()) && take(COLON) && takePhrases() && take(DOT);
         }
 
         private boolean checkOthers() {
             if (t.typeAt(0) == KEY_THE && t.typeAt(1) == KEY_VERB) {
                 sort = 7;
                 at = 2;
-                return eat(KEY_TO) && eatRun() && eat(KEY_MEANS) && eat(KEY_THE) && eatRun() && eat(KEY_RELATION)
-                    && eat(DOT);
+                return take(KEY_TO) && takeRun() && take(KEY_MEANS) && take(KEY_THE) && takeRun() && take(KEY_RELATION)
+                    && take(DOT);
             }
             if (t.typeAt(0) == KEY_THE && t.typeAt(1) == KEY_PLURAL) {
                 sort = 8;
                 at = 2;
-                return eat(KEY_OF) && eatName() && eatBe() && eatRun() && eat(DOT);
+                return take(KEY_OF) && takeName() && takeBe() && takeRun() && take(DOT);
             }
             at = 0;
             teller = t.tellingKey();
@@ -1616,27 +1618,30 @@ public final class RuleSentences {
                     return checkBe();
                 case KEY_HAS:
                     sort = 17;
-                    return eatName() && eat(KEY_HAS) && eatArt() && eatRun() && eat(KEY_CALLED) && eatRun() && eat(DOT);
+                    return takeName() && take(KEY_HAS) && takeArt() && takeRun() && take(KEY_CALLED) && takeRun()
+                        && take(DOT);
                 case KEY_CAN:
                     sort = 18;
-                    return eatName() && eat(KEY_CAN) && eat(KEY_BE) && eatRun() && eat(KEY_OR) && eatRun() && eat(DOT);
+                    return takeName() && take(KEY_CAN) && take(KEY_BE) && takeRun() && take(KEY_OR) && takeRun()
+                        && take(DOT);
                 case KEY_RELATES:
                     sort = 19;
-                    return eatName() && eat(KEY_RELATES) && eatHowMany() && eatRun() && eat(KEY_TO) && eatHowMany()
-                        && eatRun() && eat(DOT);
+                    return takeName() && take(KEY_RELATES) && takeHowMany() && takeRun() && take(KEY_TO)
+                        && takeHowMany() && takeRun() && take(DOT);
                 default:
                     sort = 20;
-                    return eatLoose() && eat(DOT);
+                    return takeLoose(KEY_AND, COMMA) && take(DOT);
             }
         }
 
+        /** 9 to 16 */
         private boolean checkBe() {
             if (t.beginsProperty(0)) {
                 sort = 9;
                 at = t.runEnd(1) + 1;
-                return eatName() && eatBe() && eatWhat() && eat(DOT);
+                return takeName() && takeBe() && takeWhat() && take(DOT);
             }
-            if (!eatList() || !eatBe()) {
+            if (!takeList() || !takeBe()) {
                 return false;
             }
             int key = t.typeAt(at);
@@ -1644,45 +1649,42 @@ public final class RuleSentences {
             if (key == KEY_A && next == KEY_KIND) {
                 sort = 10;
                 at += 2;
-                return (!take(KEY_OF) || take(KEY_VALUE) || eatName()) && eat(DOT);
+                return (!take(KEY_OF) || take(KEY_VALUE) || takeName()) && take(DOT);
             }
             if (key == KEY_AN && next == KEY_ACTION) {
                 sort = 11;
                 at += 2;
-                return (!take(KEY_APPLYING) || eat(KEY_TO) && eat(KEY_ONE) && eatRun()) && eat(DOT);
+                return (!take(KEY_APPLYING) || take(KEY_TO) && take(KEY_ONE) && takeRun()) && take(DOT);
             }
             if (isArt(key)) {
                 sort = 12;
                 at++;
-                return eatRun() && (!atPlace() || eatPlace(false)) && eat(DOT);
+                return takeRun() && (!atPlace() || takePlace(false)) && take(DOT);
             }
             if (atPlace()) {
                 sort = 13;
-                return eatPlace(false) && eat(DOT);
+                return takePlace(false) && take(DOT);
             }
             return checkRuns(take(KEY_NOT) || take(KEY_USUALLY));
         }
 
+        /** 14 to 16; behind not and usually a RUN stands alone. */
         private boolean checkRuns(boolean alone) {
             sort = 15;
-            if (!eatRun()) {
+            if (!takeRun()) {
                 return false;
             }
             if (!alone && take(KEY_OF)) {
                 sort = 14;
-                return eatName() && eat(DOT);
+                return takeName() && take(DOT);
             }
-            while (!alone && takeBetween()) {
+            for (int n = 0; n < TAPE_MOST && !alone && takeBetween(); n++) {
                 sort = 16;
-                if (!eatRun()) {
+                if (!takeRun()) {
                     return false;
                 }
             }
-            return eat(DOT);
-        }
-
-        private boolean eat(int type) {
-            return take(type);
+            return take(DOT);
         }
 
         private boolean take(int type) {
@@ -1693,7 +1695,7 @@ public final class RuleSentences {
             return true;
         }
 
-        private boolean eatArt() {
+        private boolean takeArt() {
             if (!isArt(t.typeAt(at))) {
                 return false;
             }
@@ -1701,35 +1703,31 @@ public final class RuleSentences {
             return true;
         }
 
-        private boolean eatBe() {
+        private boolean takeBe() {
             return take(KEY_IS) || take(KEY_ARE);
         }
 
-        private boolean eatHowMany() {
+        private boolean takeHowMany() {
             return take(KEY_ONE) || take(KEY_VARIOUS);
         }
 
-        private boolean eatRun() {
+        private boolean takeRun() {
             int from = at;
-            at = t.runEnd(from);
+            at = t.runEndUpTo(from, TAPE_MOST);
             return at > from;
         }
 
-        private boolean eatName() {
+        private boolean takeName() {
             at = t.behindArt(at);
-            return eatRun();
+            return takeRun();
         }
 
-        private boolean eatList() {
-            if (!eatName()) {
-                return false;
+        private boolean takeList() {
+            boolean good = takeName();
+            for (int n = 0; n < TAPE_MOST && good && takeBetween(); n++) {
+                good = takeName();
             }
-            while (takeBetween()) {
-                if (!eatName()) {
-                    return false;
-                }
-            }
-            return true;
+            return good;
         }
 
         /** What stands between the NAMES of a LIST. */
@@ -1746,126 +1744,104 @@ public final class RuleSentences {
             return key == KEY_IN || key == KEY_ON || key == KEY_PART || key == KEY_CARRIED || key == KEY_WORN;
         }
 
-        private boolean eatPlace(boolean ofThing) {
-            boolean begun = take(KEY_IN) || take(KEY_ON) || take(KEY_PART) && eat(KEY_OF)
-                || (take(KEY_CARRIED) || take(KEY_WORN)) && eat(KEY_BY);
-            return begun && (ofThing ? eatThing() : eatName());
+        private boolean takePlace(boolean anyThing) {
+            int key = t.typeAt(at);
+            at++;
+            if (key == KEY_PART && !take(KEY_OF) || (key == KEY_CARRIED || key == KEY_WORN) && !take(KEY_BY)) {
+                return false;
+            }
+            return anyThing ? takeThing() : takeName();
         }
 
-        private boolean eatThing() {
+        private boolean takeThing() {
             if (take(KEY_IT) || take(KEY_NOUN)) {
                 return true;
             }
-            if (t.typeAt(at) == KEY_THE && t.typeAt(at + 1) == KEY_NOUN) {
-                at += 2;
-                return true;
-            }
-            return eatName();
+            boolean the = t.typeAt(at) == KEY_THE;
+            at = t.behindArt(at);
+            return the && take(KEY_NOUN) || takeRun();
         }
 
-        private boolean eatWhat() {
-            return take(NUMBER) || take(TEXT) || eatRun();
+        private boolean takeWhat() {
+            return take(NUMBER) || take(TEXT) || takeRun();
         }
 
-        private boolean eatLoose() {
+        /** FREE words, ARTS and two sorts of tokens more, in any order. */
+        private boolean takeLoose(int one, int other) {
             int from = at;
             int type = t.typeAt(at);
-            while (type == FREE || isArt(type) || type == KEY_AND || type == COMMA) {
+            while (at < from + TAPE_MOST && (type == FREE || isArt(type) || type == one || type == other)) {
                 at++;
                 type = t.typeAt(at);
             }
             return at > from;
         }
 
-        private boolean eatSaying() {
-            int from = at;
-            int type = t.typeAt(at);
-            while (type == FREE || isArt(type) || type == KEY_IT || type == KEY_NOUN) {
-                at++;
-                type = t.typeAt(at);
+        private boolean takeTests() {
+            boolean good = takeTest(false);
+            for (int n = 0; n < TAPE_MOST && good && take(KEY_AND); n++) {
+                good = takeTest(false);
             }
-            return at > from;
+            return good;
         }
 
-        private boolean eatTests() {
-            if (!eatTest(false)) {
-                return false;
-            }
-            while (take(KEY_AND)) {
-                if (!eatTest(false)) {
-                    return false;
-                }
-            }
-            return true;
-        }
-
-        private boolean eatTest(boolean now) {
+        private boolean takeTest(boolean now) {
             if (t.firstOf(KEY_IS, at, t.testEnd(at, now)) == NONE) {
-                return eatSaying();
+                return takeLoose(KEY_IT, KEY_NOUN);
             }
             if (t.beginsProperty(at)) {
-                return eatPropertyTest(now);
+                return takePropertyTest(now);
             }
-            if (!eatThing() || !eat(KEY_IS)) {
+            if (!takeThing() || !take(KEY_IS)) {
                 return false;
             }
             take(KEY_NOT);
-            return !now && atPlace() ? eatPlace(true) : eatRun();
+            return !now && atPlace() ? takePlace(true) : takeRun();
         }
 
-        private boolean eatPropertyTest(boolean now) {
+        private boolean takePropertyTest(boolean now) {
             at = t.runEnd(at + 1) + 1;
-            if (!eatThing() || !eat(KEY_IS)) {
+            if (!takeThing() || !take(KEY_IS)) {
                 return false;
             }
             if (now) {
-                return eatWhat();
+                return takeWhat();
             }
             if (take(KEY_LESS) || take(KEY_MORE)) {
-                return eat(KEY_THAN) && eat(NUMBER);
+                return take(KEY_THAN) && take(NUMBER);
             }
             take(KEY_NOT);
-            return eatWhat();
+            return takeWhat();
         }
 
-        private boolean eatActing() {
-            return eatRun() && (!eatArt() || eatRun());
+        private boolean takeActing() {
+            return takeRun() && (!takeArt() || takeRun());
         }
 
-        private boolean eatRuleBody() {
-            if (take(KEY_WHEN) && !eatTests()) {
-                return false;
+        private boolean takePhrases() {
+            boolean good = true;
+            for (int n = 0; n < TAPE_MOST && good && (n == 0 || take(SEMICOLON)); n++) {
+                good = take(KEY_NOW) ? takeTest(true) : takePhrase();
             }
-            if (!eat(COLON) || !eatPhrase()) {
-                return false;
-            }
-            while (take(SEMICOLON)) {
-                if (!eatPhrase()) {
-                    return false;
-                }
-            }
-            return eat(DOT);
+            return good;
         }
 
-        private boolean eatPhrase() {
+        /** A PHRASE that is not of now. */
+        private boolean takePhrase() {
             if (take(KEY_SAY)) {
-                return eat(TEXT);
-            }
-            if (take(KEY_NOW)) {
-                return eatTest(true);
+                return take(TEXT);
             }
             if (take(KEY_MOVE)) {
-                return eatThing() && eat(KEY_TO) && eatThing();
+                return takeThing() && take(KEY_TO) && takeThing();
             }
             if (take(KEY_INCREASE) || take(KEY_DECREASE)) {
-                return eat(KEY_THE) && eatRun() && eat(KEY_OF) && eatThing() && eat(KEY_BY) && eat(NUMBER);
+                return take(KEY_THE) && takeRun() && take(KEY_OF) && takeThing() && take(KEY_BY) && take(NUMBER);
             }
             if (take(KEY_TRY)) {
-                int from = at;
-                at = t.runEnd(from);
+                boolean run = takeRun();
                 int type = t.typeAt(at);
                 boolean thing = isArt(type) || type == KEY_IT || type == KEY_NOUN;
-                return at > from && (!thing || eatThing());
+                return run && (!thing || takeThing());
             }
             return take(KEY_STOP);
         }
@@ -1934,7 +1910,7 @@ public final class RuleSentences {
                 return behind;
             }
             whoRow = isArt(key) ? from + 1 : from;
-            behind = t.runEnd(whoRow, limit);
+            behind = t.runEndUpTo(whoRow, limit);
             int meant = v.meaning(t.values, whoRow, behind);
             if (meant >> 8 == OBJECTS) {
                 who = meant & 255;
@@ -2046,7 +2022,7 @@ public final class RuleSentences {
                 value = t.placeAt(row) + 1;
                 return true;
             }
-            int meant = token == FREE ? v.meaning(t.values, row, t.runEnd(row, row + NAME_MOST + 1)) : NONE;
+            int meant = token == FREE ? v.meaning(t.values, row, t.runEndUpTo(row, row + NAME_MOST + 1)) : NONE;
             if (meant >> 8 == VALUES && v.valueType[meant & 255] == type) {
                 value = meant & 255;
                 return true;
@@ -2061,9 +2037,11 @@ public final class RuleSentences {
         private final Vocabulary v;
         private final Meanings m;
         private final Book book;
-        /** The row of the rule that is being read, and the token behind its head. */
+        /** The row of the rule that is being read, and the token behind what has been read of it. */
         private int[] rule;
         private int headEnd;
+        /** How many TESTS were read last. */
+        int testCount;
 
         RuleReader(Tokens t, Meanings m, Book book) {
             this.t = t;
@@ -2073,19 +2051,7 @@ public final class RuleSentences {
             this.rule = book.rule[0];
         }
 
-        /** The TESTS of a definition, of a kind, from a token on. */
-        boolean definitionTests(int adjective, int kind, int from) {
-            m.startSelf(KEY_IT, kind);
-            int first = book.clauseCount;
-            if (!tests(from)) {
-                return false;
-            }
-            v.firstTest[adjective] = first;
-            v.testCount[adjective] = book.clauseCount - first;
-            return true;
-        }
-
-        /** What stands ahead of the : of a rule. */
+        /** What stands ahead of the TESTS of a rule. */
         boolean ruleHead(int sort) {
             if (book.rules >= RULE_MOST) {
                 return t.wrong(9, 0);
@@ -2103,11 +2069,6 @@ public final class RuleSentences {
                 }
                 nameNoun();
             }
-            int first = book.clauseCount;
-            if (t.typeAt(headEnd) == KEY_WHEN && !tests(headEnd + 1)) {
-                return false;
-            }
-            rule[Book.TEST_COUNT] = book.clauseCount - first;
             return true;
         }
 
@@ -2192,24 +2153,35 @@ public final class RuleSentences {
             return readings == 1 || t.wrong(readings == 0 ? 4 : 7, from);
         }
 
-        private boolean tests(int from) {
+        /** Where the TESTS of the rule begin; NONE without. */
+        int whenEnd() {
+            return t.typeAt(headEnd) == KEY_WHEN ? headEnd + 1 : NONE;
+        }
+
+        /** TESTS from a token on (NONE: there are none). */
+        boolean tests(int from) {
             int at = from;
-            int n = 0;
-            boolean more = true;
-            while (more) {
+            boolean more = from != NONE;
+            testCount = 0;
+            for (int n = 0; more; n++) {
                 if (n == TEST_MOST) {
                     return t.wrong(9, at);
                 }
-                int to = t.testEnd(at, false);
-                if (!test(at, to, book.nextClause(Clause.ADJECTIVE), false)) {
+                headEnd = t.testEnd(at, false);
+                if (!test(at, headEnd, book.nextClause(Clause.ADJECTIVE), false)) {
                     return false;
                 }
-                n++;
-                headEnd = to;
-                more = t.typeAt(to) == KEY_AND;
-                at = to + 1;
+                testCount++;
+                more = t.typeAt(headEnd) == KEY_AND;
+                at = headEnd + 1;
             }
             return true;
+        }
+
+        /** The TESTS read last are those of a DEFINED adjective. */
+        void keepTests(int adjective) {
+            v.firstTest[adjective] = book.clauseCount - testCount;
+            v.testCount[adjective] = testCount;
         }
 
         private boolean test(int from, int to, Clause c, boolean now) {
@@ -2318,9 +2290,8 @@ public final class RuleSentences {
         /** What stands behind the : of a rule; then the rule is told. */
         boolean rulePhrases() {
             int at = headEnd + 1;
-            int n = 0;
             boolean more = true;
-            while (more) {
+            for (int n = 0; more; n++) {
                 if (n == PHRASE_MOST) {
                     return t.wrong(9, at);
                 }
@@ -2338,11 +2309,11 @@ public final class RuleSentences {
                 if (!good) {
                     return false;
                 }
-                n++;
+                rule[Book.PHRASE_COUNT] = n + 1;
                 more = t.typeAt(to) == SEMICOLON;
                 at = to + 1;
             }
-            rule[Book.PHRASE_COUNT] = n;
+            rule[Book.TEST_COUNT] = testCount;
             book.rules++;
             return true;
         }
@@ -2473,12 +2444,12 @@ public final class RuleSentences {
         private int holder;
         private final long[] spelled = new long[NAME_MOST];
 
-        Reader(Tokens t, World w, Book book, Commands commands) {
+        Reader(Tokens t, Grammar grammar, World w, Book book, Commands commands) {
             this.t = t;
+            this.grammar = grammar;
             this.w = w;
             this.v = w.v;
             this.commands = commands;
-            grammar = new Grammar(t);
             m = new Meanings(t, w);
             rules = new RuleReader(t, m, book);
             subject = NONE;
@@ -2488,44 +2459,29 @@ public final class RuleSentences {
             subject = NONE;
         }
 
-        /** Reads the sentence that begins at a byte; answers the byte behind it. */
-        int sentence(int from) {
-            int behind = t.takeSentence(from);
-            if (t.endsBadly()) {
-                t.wrong(1, t.lastRow());
-            } else if (!grammar.check()) {
-                t.wrong(2, grammar.at);
-            } else {
-                news = 0;
-                way = NOWHERE;
-                m.startSelf(NONE, NONE);
-                if (grammar.sort >= 9) {
-                    tellSentence();
-                } else {
-                    beginSentence();
-                }
-            }
-            return behind;
-        }
-
-        private boolean beginSentence() {
+        /** A sentence that is told by how it begins; false with a fault. */
+        boolean beginSentence() {
+            news = 0;
             switch (grammar.sort) {
                 case 0:
                     return describe();
                 case 1:
                     return understand();
                 case 2:
-                    return define();
+                    return startDefinition() && rules.tests(newTo[0] + 1) && endDefinition();
                 case 7:
                     return tellVerb();
                 case 8:
                     return tellPlural();
                 default:
-                    return rules.ruleHead(grammar.sort) && rules.rulePhrases();
+                    return rules.ruleHead(grammar.sort) && rules.tests(rules.whenEnd()) && rules.rulePhrases();
             }
         }
 
-        private boolean tellSentence() {
+        /** A sentence that is told by its is, are, has, can or relates, or has none of them; false with a fault. */
+        boolean tellSentence() {
+            news = 0;
+            way = NOWHERE;
             switch (grammar.sort) {
                 case 9:
                     return tellProperty();
@@ -2539,8 +2495,9 @@ public final class RuleSentences {
                 case 14:
                     return tellWay();
                 case 15:
+                    return tellsUsually() ? tellUsually() : tellsValues() ? tellValues() : tellPlain();
                 case 16:
-                    return tellRuns();
+                    return tellValues();
                 case 17:
                     return tellHas();
                 case 18:
@@ -2552,14 +2509,19 @@ public final class RuleSentences {
             }
         }
 
-        /** The first RUN of the LIST ahead of is or are. */
-        private int firstName() {
-            return t.nextRun(0, grammar.teller);
+        /** Whether a RUN of the LIST ahead of is or are begins at a row. */
+        private boolean beginsName(int row) {
+            return t.beginsRun(row, 0) && row < grammar.teller;
         }
 
-        /** The RUN of the LIST that follows one; the is or are behind the last. */
-        private int nextName(int from) {
-            return t.nextRun(t.runEnd(from), grammar.teller);
+        /** The second RUN of the LIST; NONE. */
+        private int secondName() {
+            for (int row = t.runEnd(t.behindArt(0)); row < grammar.teller; row++) {
+                if (beginsName(row)) {
+                    return row;
+                }
+            }
+            return NONE;
         }
 
         /** Whether words may be told as something NEW, of which there are so many already. */
@@ -2632,20 +2594,22 @@ public final class RuleSentences {
             return true;
         }
 
-        private boolean define() {
+        private boolean startDefinition() {
             int is = t.runEnd(3);
             int kind = m.find(KINDS, 3, is);
             int to = t.runEnd(is + 1);
+            m.startSelf(KEY_IT, kind);
             if (kind == NONE) {
                 return t.wrong(4, 3);
             }
-            int adjective = v.countOf(ADJECTIVES);
-            if (!takeNew(is + 1, to, adjective, ADJECTIVE_MOST) || !rules.definitionTests(adjective, kind, to + 1)) {
-                return false;
-            }
-            v.tellNew(ADJECTIVES, t.values, is + 1, to);
-            v.adjectiveKind[adjective] = kind;
+            return takeNew(is + 1, to, v.countOf(ADJECTIVES), ADJECTIVE_MOST);
+        }
+
+        private boolean endDefinition() {
+            int adjective = v.tellNew(ADJECTIVES, t.values, newFrom[0], newTo[0]);
+            v.adjectiveKind[adjective] = m.selfKind;
             v.contrary[adjective] = NONE;
+            rules.keepTests(adjective);
             return true;
         }
 
@@ -2716,8 +2680,8 @@ public final class RuleSentences {
             boolean ofSome = t.typeAt(be + 3) == KEY_OF;
             boolean types = ofSome && t.typeAt(be + 4) == KEY_VALUE;
             int sort = types ? TYPES : KINDS;
-            for (int from = firstName(); from < be; from = nextName(from)) {
-                if (!takeNew(from, t.runEnd(from), v.countOf(sort), types ? TYPE_MOST : KIND_MOST)) {
+            for (int from = 0; from < be; from++) {
+                if (beginsName(from) && !takeNew(from, t.runEnd(from), v.countOf(sort), types ? TYPE_MOST : KIND_MOST)) {
                     return false;
                 }
             }
@@ -2756,8 +2720,8 @@ public final class RuleSentences {
 
         private boolean tellActions() {
             int be = grammar.teller;
-            for (int from = firstName(); from < be; from = nextName(from)) {
-                if (!takeNew(from, t.runEnd(from), v.countOf(ACTIONS), ACTION_MOST)) {
+            for (int from = 0; from < be; from++) {
+                if (beginsName(from) && !takeNew(from, t.runEnd(from), v.countOf(ACTIONS), ACTION_MOST)) {
                     return false;
                 }
             }
@@ -2791,8 +2755,8 @@ public final class RuleSentences {
         }
 
         private boolean takeObjects() {
-            for (int from = firstName(); from < grammar.teller; from = nextName(from)) {
-                if (!takeObjectOrNew(from, NONE)) {
+            for (int from = 0; from < grammar.teller; from++) {
+                if (beginsName(from) && !takeObjectOrNew(from, NONE)) {
                     return false;
                 }
             }
@@ -2832,7 +2796,10 @@ public final class RuleSentences {
         /** Does what a DESCRIPTION (if there is one) and a PLACE (likewise) tell of each in the LIST. */
         private boolean doObjects(boolean described) {
             int first = NONE;
-            for (int from = firstName(); from < grammar.teller; from = nextName(from)) {
+            for (int from = 0; from < grammar.teller; from++) {
+                if (!beginsName(from)) {
+                    continue;
+                }
                 int object = objectOrNew(from, described ? m.described : THING);
                 first = first == NONE ? object : first;
                 if (described && !(w.tellKind(object, m.described) && tellAdjectives(object))) {
@@ -2862,12 +2829,12 @@ public final class RuleSentences {
 
         private boolean tellWay() {
             int be = grammar.teller;
-            int from = firstName();
+            int from = t.behindArt(0);
             if (!takeObjectOrNew(from, ROOM)) {
                 return false;
             }
-            if (nextName(from) < be) {
-                return t.wrong(4, nextName(from));
+            if (secondName() != NONE) {
+                return t.wrong(4, secondName());
             }
             int of = t.runEnd(be + 1);
             int direction = m.find(DIRECTIONS, be + 1, of);
@@ -2883,23 +2850,13 @@ public final class RuleSentences {
             return w.tellWay(start, direction, subject) || t.wrong(5, from);
         }
 
-        /** 15 and 16. */
-        private boolean tellRuns() {
-            int at = grammar.teller + 1;
-            boolean not = t.typeAt(at) == KEY_NOT;
-            if (t.typeAt(at) == KEY_USUALLY) {
-                return tellUsually(at + 1);
-            }
-            int name = firstName();
-            boolean alone = nextName(name) >= grammar.teller;
-            int type = not ? NONE : typeMeant(name);
-            if (grammar.sort == 16) {
-                return type == NONE ? t.wrong(4, name) : !alone ? t.wrong(4, nextName(name)) : tellValues(at, type);
-            }
-            if (alone && type != NONE) {
-                return tellValues(at, type);
-            }
-            return tellPlain(not ? at + 1 : at, not);
+        private boolean tellsUsually() {
+            return t.typeAt(grammar.teller + 1) == KEY_USUALLY;
+        }
+
+        /** Whether 15 tells a value of a TYPE. */
+        private boolean tellsValues() {
+            return t.typeAt(grammar.teller + 1) != KEY_NOT && secondName() == NONE && typeMeant(t.behindArt(0)) != NONE;
         }
 
         /** The TYPE that words mean, by itself or by its plural, if it can have values. */
@@ -2909,10 +2866,14 @@ public final class RuleSentences {
             return type && (meant & 255) > TYPE_TEXT ? meant & 255 : NONE;
         }
 
-        private boolean tellValues(int at, int type) {
-            int end = t.lastRow();
-            for (int from = at; from < end; from = t.nextRun(t.runEnd(from), end)) {
-                if (!takeNew(from, t.runEnd(from), v.valuesOf(type), VALUE_MOST)) {
+        private boolean tellValues() {
+            int name = t.behindArt(0);
+            int type = typeMeant(name);
+            if (type == NONE || secondName() != NONE) {
+                return t.wrong(4, type == NONE ? name : secondName());
+            }
+            for (int from = grammar.teller + 1; from < t.lastRow(); from++) {
+                if (t.beginsRun(from, 0) && !takeNew(from, t.runEnd(from), v.valuesOf(type), VALUE_MOST)) {
                     return false;
                 }
             }
@@ -2922,14 +2883,12 @@ public final class RuleSentences {
             return true;
         }
 
-        private boolean tellUsually(int at) {
-            int name = firstName();
+        private boolean tellUsually() {
+            int name = t.behindArt(0);
             int kind = m.find(KINDS, name, t.runEnd(name));
-            if (kind == NONE) {
-                return t.wrong(4, name);
-            }
-            if (nextName(name) < grammar.teller) {
-                return t.wrong(4, nextName(name));
+            int at = grammar.teller + 2;
+            if (kind == NONE || secondName() != NONE) {
+                return t.wrong(4, kind == NONE ? name : secondName());
             }
             int readings = m.readAdjective(kind, at, t.runEnd(at), true, false);
             if (readings != 1) {
@@ -2939,7 +2898,9 @@ public final class RuleSentences {
         }
 
         /** 15 of objects. */
-        private boolean tellPlain(int at, boolean not) {
+        private boolean tellPlain() {
+            boolean not = t.typeAt(grammar.teller + 1) == KEY_NOT;
+            int at = grammar.teller + (not ? 2 : 1);
             int to = t.runEnd(at);
             boolean are = t.typeAt(grammar.teller) == KEY_ARE && !not;
             boolean plural = are && m.countReadings(at, to, true, false, NONE) > 0;
@@ -2948,10 +2909,8 @@ public final class RuleSentences {
             if (plural && !word) {
                 return takeObjects() && takeDescription(at, to, true) && doObjects(true);
             }
-            for (int from = firstName(); from < grammar.teller; from = nextName(from)) {
-                if (m.find(OBJECTS, from, t.runEnd(from)) == NONE) {
-                    return t.wrong(4, from);
-                }
+            if (!takeOldObjects()) {
+                return false;
             }
             if (plural) {
                 return t.wrong(7, at);
@@ -2959,12 +2918,21 @@ public final class RuleSentences {
             return adjectiveSuits(at, to, not) && doAdjective(at, to, not);
         }
 
+        private boolean takeOldObjects() {
+            for (int from = 0; from < grammar.teller; from++) {
+                if (beginsName(from) && m.find(OBJECTS, from, t.runEnd(from)) == NONE) {
+                    return t.wrong(4, from);
+                }
+            }
+            return true;
+        }
+
         /** Whether a RUN is one ADJECTIVE of the kind of each in the LIST. */
         private boolean adjectiveSuits(int at, int to, boolean not) {
             boolean twice = false;
-            for (int from = firstName(); from < grammar.teller; from = nextName(from)) {
-                int object = m.find(OBJECTS, from, t.runEnd(from));
-                int readings = object == NONE ? 0 : m.readAdjective(w.kindOf[object], at, to, !not, false);
+            for (int from = 0; from < grammar.teller; from++) {
+                int object = beginsName(from) ? m.find(OBJECTS, from, t.runEnd(from)) : NONE;
+                int readings = object == NONE ? 1 : m.readAdjective(w.kindOf[object], at, to, !not, false);
                 if (readings == 0) {
                     return t.wrong(4, at);
                 }
@@ -2974,19 +2942,24 @@ public final class RuleSentences {
         }
 
         private boolean doAdjective(int at, int to, boolean not) {
-            for (int from = firstName(); from < grammar.teller; from = nextName(from)) {
-                int object = objectOrNew(from, THING);
+            int first = NONE;
+            for (int from = 0; from < grammar.teller; from++) {
+                int object = beginsName(from) ? m.find(OBJECTS, from, t.runEnd(from)) : NONE;
+                if (object == NONE) {
+                    continue;
+                }
+                first = first == NONE ? object : first;
                 m.readAdjective(w.kindOf[object], at, to, !not, false);
                 if (!tellOne(object, m.met, m.metProperty, !not)) {
                     return t.wrong(5, from);
                 }
             }
-            subject = objectOrNew(firstName(), THING);
+            subject = first;
             return true;
         }
 
         private boolean tellHas() {
-            int name = firstName();
+            int name = t.behindArt(0);
             int at = grammar.teller + 2;
             int called = t.runEnd(at);
             int last = called + 1;
@@ -3019,7 +2992,7 @@ public final class RuleSentences {
         }
 
         private boolean tellCan() {
-            int name = firstName();
+            int name = t.behindArt(0);
             int at = grammar.teller + 2;
             int or = t.runEnd(at);
             int to = t.runEnd(or + 1);
@@ -3038,7 +3011,7 @@ public final class RuleSentences {
         }
 
         private boolean tellRelation() {
-            int name = firstName();
+            int name = t.behindArt(0);
             int at = grammar.teller + 2;
             int to = t.runEnd(at);
             int last = to + 2;
@@ -3099,7 +3072,7 @@ public final class RuleSentences {
             int at = from;
             while (at < to) {
                 at = isArt(t.typeAt(at)) ? at + 1 : at;
-                int behind = t.runEnd(at, to);
+                int behind = t.runEndUpTo(at, to);
                 int object = m.find(OBJECTS, at, behind);
                 if (object == NONE || !w.isA(object, kind)) {
                     return false;
@@ -3117,11 +3090,11 @@ public final class RuleSentences {
         }
 
         private boolean relateAll(int relation, int verb, int end) {
-            for (int i = t.nextRun(0, verb); i < verb; i = t.nextRun(t.runEnd(i, verb), verb)) {
-                int a = m.find(OBJECTS, i, t.runEnd(i, verb));
-                for (int k = t.nextRun(verb + 1, end); k < end; k = t.nextRun(t.runEnd(k), end)) {
-                    int b = m.find(OBJECTS, k, t.runEnd(k));
-                    if (a == NONE || b == NONE || !w.tellRelated(relation, a, b)) {
+            for (int i = 0; i < verb; i++) {
+                int a = t.beginsRun(i, 0) ? m.find(OBJECTS, i, t.runEndUpTo(i, verb)) : NONE;
+                for (int k = verb + 1; k < end && a != NONE; k++) {
+                    int b = t.beginsRun(k, verb + 1) ? m.find(OBJECTS, k, t.runEnd(k)) : NONE;
+                    if (b != NONE && !w.tellRelated(relation, a, b)) {
                         return false;
                     }
                 }
@@ -3201,7 +3174,9 @@ public final class RuleSentences {
                     ended = phrases > PHRASES_A_TURN;
                     Clause c = book.clauseAt(first + k);
                     stopped = c.form == Clause.STOP;
-                    if (!ended && !stopped) {
+                    if (!ended && c.form == Clause.SAY) {
+                        sayText(c, noun);
+                    } else if (!ended) {
                         perform(c, noun, depth);
                     }
                 }
@@ -3264,7 +3239,7 @@ public final class RuleSentences {
             if (v.contrary[adjective] != NONE) {
                 return w.hasAdjective(object, adjective);
             }
-            if (depth >= WITHIN_MOST || !w.isA(object, v.adjectiveKind[adjective])) {
+            if (depth >= WITHIN_MOST || !v.isKind(w.kindOf[object], v.adjectiveKind[adjective])) {
                 return false;
             }
             for (int i = 0; i < v.testCount[adjective]; i++) {
@@ -3288,9 +3263,6 @@ public final class RuleSentences {
                     break;
                 case Clause.RELATED:
                     w.relateNow(c.which, who, whom);
-                    break;
-                case Clause.SAY:
-                    sayText(c, noun);
                     break;
                 case Clause.MOVE:
                     move(who, whom);
@@ -3361,7 +3333,7 @@ public final class RuleSentences {
 
         private boolean go(int direction) {
             int room = w.holder[PLAYER];
-            if (w.way[PLAYER] != WAY_IN || room < 0 || !w.isA(room, ROOM)) {
+            if (w.way[PLAYER] != WAY_IN || room < 0 || !v.isKind(w.kindOf[room], ROOM)) {
                 return false;
             }
             int to = w.roomBehind(room, direction);
