@@ -1,0 +1,194 @@
+/** Promises 8 to 14: kinds, objects, adjectives, properties, ways and relations behind a story. */
+public final class WorldTest {
+    private static final Checks C = new Checks();
+    private static final int NONE = RuleSentences.NONE;
+
+    public static void main(String[] args) {
+        kinds();
+        objects();
+        adjectives();
+        defined();
+        properties();
+        ways();
+        relations();
+        C.end("WorldTest");
+    }
+
+    private static void kinds() {
+        C.good("A box is a kind of container. A crate and bin are a kind of box. A mat is a kind. A cave is a kind of room."
+            + " A box can be open or shut. A thing has a number called weight. A crate has a number called weight."
+            + " A bin has a text called label. Definition: a crate is odd if it is fixed.");
+        int[][] due = {{NONE, 2, 2}, {NONE, 1, 0}, {0, 2, 2}, {0, 2, 2}, {0, 2, 2}, {2, 2, 4}, {5, 2, 5}, {5, 3, 4}, {0, 2, 2},
+            {1, 1, 0}};
+        for (int i = 0; i < due.length; i++) {
+            for (int what = 0; what < 3; what++) {
+                C.due("kind(" + i + ", " + what + ")", C.x.kind(i, what), due[i][what]);
+            }
+        }
+        C.due("kind(10, 0)", C.x.kind(10, 0), NONE);
+        C.due("kind(-1, 1)", C.x.kind(-1, 1), NONE);
+        C.due("kind(5, 3)", C.x.kind(5, 3), NONE);
+        C.due("kind(5, -1)", C.x.kind(5, -1), NONE);
+    }
+
+    private static void objects() {
+        C.good("The table is a supporter. Anna is a person. The hall is a room. The tin is a container on the table."
+            + " The pea is in the tin. The lid is part of the tin. The cap is worn by Anna. The key is carried by Anna."
+            + " Anna is in the hall.");
+        C.place(0, 1, 3);
+        C.place(1, 0, NONE);
+        C.place(2, 1, 3);
+        C.place(3, 0, NONE);
+        C.place(4, 2, 1);
+        C.place(5, 1, 4);
+        C.place(6, 3, 4);
+        C.place(7, 5, 2);
+        C.place(8, 4, 2);
+        C.due("kind of the pea", C.x.object(5, 0), 0);
+        C.due("kind of the tin", C.x.object(4, 0), 2);
+        C.due("object(9, 0)", C.x.object(9, 0), NONE);
+        C.due("object(-1, 0)", C.x.object(-1, 0), NONE);
+        C.due("object(1, 3)", C.x.object(1, 3), NONE);
+        C.due("object(1, -1)", C.x.object(1, -1), NONE);
+        C.good("The hall is a room. The yard is a room. The player is in the yard.");
+        C.place(0, 1, 2);
+        C.good("Anna is a person. The player is carried by Anna. The hall is a room.");
+        C.place(0, 4, 1);
+        C.good("The lamp is a thing.");
+        C.place(0, 0, NONE);
+        // The first room by its number, though another one was told to be a room first.
+        C.good("The tin is a thing. The hall is a room. A cave is a kind of room. The den is a cave.");
+        C.place(0, 1, 2);
+    }
+
+    private static void adjectives() {
+        C.good("A box is a kind. A crate is a kind of box. A thing can be old or new. The tin is a thing. The bag is a box."
+            + " The bin and the tub are crates. The hall is a room. A thing is usually old. A box is usually new."
+            + " The bin is old. The tin is not portable.");
+        int[][] due = {{0, 1, 1, 0}, {1, 0, 1, 0}, {0, 1, 0, 1}, {0, 1, 1, 0}, {0, 1, 0, 1}};
+        for (int i = 0; i < due.length; i++) {
+            for (int a = 0; a < 4; a++) {
+                C.due("is(" + i + ", " + a + ")", C.x.is(i, a), due[i][a]);
+            }
+        }
+        C.due("is() of a room", C.x.is(5, 0), NONE);
+        C.due("is(-1, 0)", C.x.is(-1, 0), NONE);
+        C.due("is(6, 0)", C.x.is(6, 0), NONE);
+        C.due("is(0, 4)", C.x.is(0, 4), NONE);
+        C.due("is(0, -1)", C.x.is(0, -1), NONE);
+        C.good("A box is a kind. A box can be open or shut. The bag is a box.");
+        C.due("the second of two holds", C.x.is(1, 3), 1);
+        C.due("the first does not", C.x.is(1, 2), 0);
+        C.due("not of its kind", C.x.is(0, 2), NONE);
+        C.good("A box is a kind. A box can be open or shut. The bag, the bin are open boxs.");
+        C.due("a plural DESCRIPTION", C.x.is(2, 2), 1);
+    }
+
+    private static void defined() {
+        String tests = "Colour is a kind of value. Colour is red, blue. A thing has a colour called tint. A thing has a number called weight."
+            + " The hall is a room. The tin is a blue thing in the hall. The weight of tin is 3. Liking relates various things to various things."
+            + " The verb to like means the liking relation. The tin likes the player. The player likes the tin."
+            + " The description of the tin is \"Tin\". The bag is a thing. ";
+        C.good(tests + "Definition: a thing is aa if it is blue. Definition: a thing is bb if the tint of it is not red."
+            + " Definition: a thing is cc if the weight of it is more than 2. Definition: a thing is dd if the weight of it is less than 3."
+            + " Definition: a thing is ee if the weight of it is 3. Definition: a thing is ff if it is in the hall and it is not fixed."
+            + " Definition: a thing is gg if it is not in the hall. Definition: a thing is hh if it likes the player."
+            + " Definition: a thing is ii if the player likes it. Definition: a thing is jj if the description of it is \"Tin\"."
+            + " Definition: a thing is kk if it is aa and it is not gg. Definition: a person is ll if it is fixed."
+            + " Definition: a thing is mm if the description of it is not \"tin\" and the description of it is not \"Ti\".");
+        int[] tin = {1, 1, 1, 0, 1, 1, 0, 1, 1, 1, 1, NONE, 1};
+        int[] player = {0, 0, 0, 1, 0, 1, 0, 0, 0, 0, 0, 0, 1};
+        int[] bag = {0, 0, 0, 1, 0, 0, 1, 0, 0, 0, 0, NONE, 1};
+        for (int i = 0; i < tin.length; i++) {
+            C.due("is(tin, " + (i + 2) + ")", C.x.is(2, i + 2), tin[i]);
+            C.due("is(player, " + (i + 2) + ")", C.x.is(0, i + 2), player[i]);
+            C.due("is(bag, " + (i + 2) + ")", C.x.is(3, i + 2), bag[i]);
+        }
+        C.due("a room is not of its kind", C.x.is(1, 2), NONE);
+        StringBuilder chain = new StringBuilder("Definition: a thing is waa if it is portable. ");
+        for (int i = 1; i < 10; i++) {
+            chain.append("Definition: a thing is ").append(Checks.word(i)).append(" if it is ").append(Checks.word(i - 1)).append(". ");
+        }
+        C.good(chain + "Definition: a thing is far if it is not wah.", 11);
+        C.due("eight within one another", C.x.is(0, 2 + 7), 1);
+        C.due("nine within one another", C.x.is(0, 2 + 8), 0);
+        C.due("ten within one another", C.x.is(0, 2 + 9), 0);
+        C.due("the ninth does not hold", C.x.is(0, 2 + 10), 1);
+    }
+
+    private static void properties() {
+        C.good("Colour is a kind of value. Mood is a kind of value. Colour is red. Mood is sad and so. Colour is blue."
+            + " Void is a kind of value. A thing has a mood called mind. A thing has a colour called tint. A thing has a void called gap."
+            + " A box is a kind. A thing has a number called weight. A box has a text called label. The tin is a box. The hall is a room."
+            + " The weight of thing is 4. The weight of tin is 999999. The mind of box is so. The label of the tin is \"x [y]\"."
+            + " The description of thing is \"A thing.\". The tint of player is blue.");
+        C.due("number of a kind", C.x.property(0, 4), 4);
+        C.due("number", C.x.property(1, 4), 999999);
+        C.due("the first value", C.x.property(0, 1), 1);
+        C.due("value of a kind", C.x.property(1, 1), 2);
+        C.due("the first value", C.x.property(1, 2), 0);
+        C.due("value", C.x.property(0, 2), 3);
+        C.due("no value", C.x.property(1, 3), NONE);
+        C.due("length of a text", C.x.property(1, 5), 5);
+        C.due("text", C.text(1, 5), "x [y]");
+        C.due("text of a kind", C.text(0, 0), "A thing.");
+        C.due("letter(0, 0, 7)", C.x.letter(0, 0, 7), '.');
+        C.due("letter(0, 0, 8)", C.x.letter(0, 0, 8), NONE);
+        C.due("letter(0, 0, -1)", C.x.letter(0, 0, -1), NONE);
+        C.due("letter of a number", C.x.letter(1, 4, 0), NONE);
+        C.due("a text of another kind", C.x.letter(0, 5, 0), NONE);
+        C.due("letter(3, 0, 0)", C.x.letter(3, 0, 0), NONE);
+        C.due("letter(-1, 0, 0)", C.x.letter(-1, 0, 0), NONE);
+        C.due("letter(0, 6, 0)", C.x.letter(0, 6, 0), NONE);
+        C.due("a property of another kind", C.x.property(0, 5), NONE);
+        C.due("a property of another kind", C.x.property(2, 4), NONE);
+        C.due("an empty text", C.x.property(2, 0), 0);
+        C.due("property(3, 0)", C.x.property(3, 0), NONE);
+        C.due("property(-1, 0)", C.x.property(-1, 0), NONE);
+        C.due("property(0, 6)", C.x.property(0, 6), NONE);
+        C.due("property(0, -1)", C.x.property(0, -1), NONE);
+    }
+
+    private static void ways() {
+        C.good("The hall is a room. The yard is north of the hall. The den is up of the yard. The hall is east of the den."
+            + " The attic is a room. The hall is north of the attic. The yard is south of the attic. The den is a room. The loft is a room."
+            + " The yard is south of the loft. The tin is a thing.");
+        C.due("as told", C.x.leads(1, 0), 2);
+        C.due("back", C.x.leads(3, 5), 2);
+        C.due("back from the hall", C.x.leads(1, 3), 3);
+        C.due("back to the attic", C.x.leads(1, 1), 4);
+        C.due("the first told", C.x.leads(2, 0), 4);
+        C.due("back", C.x.leads(2, 1), 1);
+        C.due("no way", C.x.leads(1, 4), NONE);
+        C.due("from no room", C.x.leads(6, 0), NONE);
+        C.due("leads(1, 6)", C.x.leads(1, 6), NONE);
+        C.due("leads(1, -1)", C.x.leads(1, -1), NONE);
+        C.due("leads(7, 0)", C.x.leads(7, 0), NONE);
+        C.due("leads(-1, 0)", C.x.leads(-1, 0), NONE);
+        C.good("The aa is a room. The bb is a room. The cc is a room. The aa is west of the cc. The aa is west of the bb.");
+        C.due("the first told, of a higher number", C.x.leads(1, 2), 3);
+        // As told goes ahead of the way back.
+        C.good("The aa is a room. The bb is north of the aa. The cc is south of the bb.");
+        C.due("as told", C.x.leads(2, 1), 3);
+        C.due("as told", C.x.leads(1, 0), 2);
+        C.due("back", C.x.leads(3, 0), 2);
+    }
+
+    private static void relations() {
+        C.good("Anna and Bert are people. The tin is a thing. Liking relates various people to various things."
+            + " The verb to like means the liking relation. The verb to love means the liking relation. Anna and the player like the tin, Bert."
+            + " Bert loves Bert.");
+        C.due("related(0, 1, 3)", C.x.related(0, 1, 3), true);
+        C.due("related(0, 1, 2)", C.x.related(0, 1, 2), true);
+        C.due("related(0, 0, 2)", C.x.related(0, 0, 2), true);
+        C.due("related(0, 2, 2)", C.x.related(0, 2, 2), true);
+        C.due("related(0, 2, 1)", C.x.related(0, 2, 1), false);
+        C.due("related(0, 3, 1)", C.x.related(0, 3, 1), false);
+        C.due("related(1, 1, 3)", C.x.related(1, 1, 3), false);
+        C.due("related(-1, 1, 3)", C.x.related(-1, 1, 3), false);
+        C.due("related(0, -1, 3)", C.x.related(0, -1, 3), false);
+        C.due("related(0, 1, 4)", C.x.related(0, 1, 4), false);
+        C.due("related(0, 33, 3)", C.x.related(0, 33, 3), false);
+        C.due("related(0, 1, 35)", C.x.related(0, 1, 35), false);
+    }
+}
