@@ -208,9 +208,9 @@ public final class RuleSentences {
         tokens.open(story, length);
         int sentences = 0;
         int at = tokens.skip(0);
-        while (at < length && tokens.fault == 0) {
-            at = tokens.skip(tokens.takeSentence(at));
+        while (at < length && sentences < length && tokens.fault == 0) {
             sentences++;
+            at = tokens.skip(tokens.takeSentence(at));
             if (tokens.endsBadly()) {
                 tokens.wrong(1, tokens.lastRow());
             } else if (!grammar.check()) {
