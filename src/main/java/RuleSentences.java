@@ -571,7 +571,7 @@ public final class RuleSentences {
                     length++;
                 }
                 if (left < length) {
-                    for (int n = 0; n < left; n++) {
+                    for (int n = 0; n < left && unit >= LETTER_BASE; n++) {
                         unit /= LETTER_BASE;
                     }
                     return 'a' - 1 + (int) (word / unit % LETTER_BASE);

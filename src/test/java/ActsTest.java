@@ -199,7 +199,13 @@ public final class ActsTest {
 
     private static void numbers() {
         C.good("A thing has a number called weight. The tin is a thing. Before taking: increase the weight of noun by 999999. Before dropping: decrease the weight of noun by 999999."
-            + " Before examining: say \"[the weight of noun]\". Before waiting: decrease the weight of tin by 1.");
+            + " Before examining: say \"[the weight of noun]\". Before waiting: decrease the weight of tin by 1."
+            + " Aa, bb, cc, dd, ee, ff and gg are a thing. The weight of aa is 9. The weight of bb is 10. The weight of cc is 11. The weight of dd is 99."
+            + " The weight of ee is 100. The weight of ff is 101. The weight of gg is 123456.");
+        int[] numbers = {9, 10, 11, 99, 100, 101, 123456};
+        for (int i = 0; i < numbers.length; i++) {
+            C.act(EXAMINE, 2 + i, 0, numbers[i] + "\n\n");
+        }
         C.x.act(WAIT, NONE);
         C.due("-1", C.x.property(1, 1), -1);
         C.act(EXAMINE, 1, 0, "-1\n\n");

@@ -56,6 +56,10 @@ public final class CommandsTest {
         C.due("hum", C.command("hum"), 0);
         C.due("walk", C.command("walk up on"), 3);
         C.due("walk", C.command("walk bag on"), -2);
+        C.good("The abcdefghijkl is a thing. Understand \"grabgrabgrab [thing]\" as taking. Instead of taking: stop.");
+        C.due("twelve letters", C.command("grabgrabgrab abcdefghijkl"), 2);
+        C.due("thirteen letters", C.command("grabgrabgrabb abcdefghijkl"), -2);
+        C.due("thirteen letters", C.command("grabgrabgrab abcdefghijklm"), -2);
         // The player is of a kind below thing; a [ ] of a kind takes what is of that kind by now.
         C.good("The bag is a thing. Rubbing is an action applying to one container. Understand \"rub [container]\" as rubbing. The bag is a container.");
         C.due("rub bag", C.command("rub bag"), 0);
@@ -79,6 +83,9 @@ public final class CommandsTest {
         C.bad(8, world + "^\"run [thing]\" as going.");
         C.good(world + "\"run [direction]\" as going.");
         C.bad(8, world + "^\"5\" as frob.");
+        C.bad(8, world + "^\"\" as frob.");
+        C.bad(8, world + "^\" \" as singing.");
+        C.bad(8, world + "^\"x []\" as frob.");
         C.bad(8, world + "^\"[thing] [thing]\" as frob.");
         C.bad(4, world + "\"rub [frob]\" as ^frob.");
         C.bad(4, world + "\"rub\" as ^box.");

@@ -25,6 +25,8 @@ public final class FaceTest {
         C.due("wipe()", C.x.wipe(), 0);
         C.place(0, 0, NONE);
         C.due("act(0, -1)", C.x.act(0, NONE), 0);
+        C.due("is(0, 2)", C.x.is(0, 2), NONE);
+        C.due("property(0, 1)", C.x.property(0, 1), NONE);
     }
 
     private static void feeding() {
@@ -97,6 +99,18 @@ public final class FaceTest {
         C.due("relation 0", C.name(6, 0), "liking");
         C.due("verb 0", C.name(7, 0), "like");
         C.due("property 1", C.name(5, 1), "tint");
+        C.good("The plural of thing is very many things. The plural of thing is many.");
+        C.due("plural 0", C.name(11, 0), "many");
+        C.good("The plural of thing is very many things.");
+        C.due("plural 0", C.name(11, 0), "very many things");
+        C.good("The hall is a room.");
+        C.due("plural 0 of a new world", C.name(11, 0), "things");
+        C.good("The aa ab, b, zz zzzzzzzzzzzz and az are a thing.");
+        C.due("object 1", C.name(2, 1), "aa ab");
+        C.due("object 2", C.name(2, 2), "b");
+        C.due("object 3", C.name(2, 3), "zz zzzzzzzzzzzz");
+        C.due("object 4", C.name(2, 4), "az");
+        C.good("Old abcdefghijkl is a kind. The big red box is a thing. Box and bin are a kind.");
         int[][] none = {{-1, 0, 0}, {9, 0, 0}, {10, 0, 0}, {12, 0, 0}, {13, 0, 0}, {14, 0, 0}, {0, -1, 0}, {0, 8, 0},
             {0, 0, -1}, {0, 0, 5}, {11, 8, 0}, {11, -1, 0}, {2, 1, 11}, {2, 2, 0}};
         for (int[] n : none) {

@@ -51,6 +51,8 @@ public final class MeaningsTest {
         C.bad(3, WORLD + "Colour is ^blue, red.");
         C.bad(3, WORLD + "Colour is grey, ^grey.");
         C.bad(3, "Box and ^box are a thing.");
+        C.bad(3, "Old box, box and ^old box are a thing.");
+        C.good("Old box, old bag, old and box old are a thing.", 1);
         C.bad(3, "Box and ^won two three four are a thing.");
         C.bad(3, "The ^won two three four is in the hall.");
         C.bad(3, WORLD + "The ^won two three four is north of the hall.");
@@ -135,6 +137,7 @@ public final class MeaningsTest {
 
     private static void plain() {
         C.bad(4, WORLD + "The ^bag is fixed.");
+        C.bad(4, "The old red tin is a thing. The ^old red tin box is fixed.");
         C.bad(4, WORLD + "The ^bag is frob.");
         C.bad(4, WORLD + "The lamp is ^frob.");
         C.bad(4, WORLD + "The lamp is ^open.");
@@ -155,6 +158,8 @@ public final class MeaningsTest {
         C.bad(4, WORLD + "The ^colour is not grey.");
         C.bad(4, WORLD + "The ^colour and the chest are red.");
         C.bad(4, "^Number is grey.");
+        C.bad(4, "^Text is grey.");
+        C.good("The old red tin is a thing. The old red tin is fixed. The old blue tin is a thing.");
         C.bad(4, "^Number is grey, blue.");
         C.bad(4, WORLD + "The ^lamp is grey, blue.");
         C.bad(4, WORLD + "The colour and ^colour are grey, blue.");
@@ -276,9 +281,26 @@ public final class MeaningsTest {
         C.bad(7, parts + "The bag is an ^old big thing.");
         C.good(parts + "The bag is a big old thing. The tin is an old so fixed thing.");
         C.bad(4, parts + "The bag is an ^odd odd odd odd odd odd thing.");
+        C.good("A thing can be old or new. A thing can be very old or very new. The tin is a very old thing. The bag is an old very new thing.");
+        C.due("the tin is very old", C.x.is(1, 4), 1);
+        C.due("the tin is not old", C.x.is(1, 2), 0);
+        C.due("the bag is old", C.x.is(2, 2), 1);
+        C.due("the bag is very new", C.x.is(2, 5), 1);
+        C.good("A thing can be old or new. A thing can be old big or new big. The tin is an old big thing. The bag is a new big old thing.");
+        C.due("the tin is old big", C.x.is(1, 4), 1);
+        C.due("the tin is not old", C.x.is(1, 2), 0);
+        C.due("the bag is old", C.x.is(2, 2), 1);
+        C.due("the bag is new big", C.x.is(2, 5), 1);
         C.good(parts + "The bag is an odd so odd so fixed thing.");
         C.bad(7, parts + "Big thing is a kind. The bag is an ^odd big thing.");
         C.bad(7, parts + "Big thing is a kind. The bag and bin are ^odd big things.");
+        C.good("Very big box is a kind. A thing can be so very old or new. The tin is a so very old very big box. The bag is a fixed very big box.");
+        C.due("a kind of three words", C.x.object(1, 0), 5);
+        C.due("an adjective of three words", C.x.is(1, 2), 1);
+        C.due("an adjective of one word", C.x.is(2, 0), 1);
+        C.bad(4, "Very big box is a kind. A thing can be so very old or new. The tin is a ^so very old fixed very big box.");
+        C.good("A box is a kind. A red box is a kind. A box can be red or blue. A box can be odd or even. The tin is an odd red box.");
+        C.due("one kind has a READING", C.x.object(1, 0), 5);
         // An object's NAME that is a DESCRIPTION, too.
         C.bad(7, parts + "The big thing is a thing. Before taking the ^big thing: stop.");
         C.bad(7, "Rub and rub hot are an action applying to one thing. Hot tin and tin are a thing. Before ^rub hot tin: stop.");

@@ -32,6 +32,9 @@ public final class RulesTest {
         C.due("rule(-1, 0)", C.x.rule(-1, 0), NONE);
         C.due("rule(0, 8)", C.x.rule(0, 8), NONE);
         C.due("rule(0, -1)", C.x.rule(0, -1), NONE);
+        C.good("Before taking the player: stop. Before taking player: stop.");
+        rule(0, 0, 1, 0, NONE, 0, 0, 1, 0);
+        rule(1, 0, 1, 0, NONE, 0, 0, 1, 1);
         // A definition behind a rule leaves that as it is.
         C.good("Before waiting: stop. Definition: a thing is odd if it is fixed and it is fixed.");
         rule(0, 0, 0, NONE, NONE, 0, 0, 1, 0);

@@ -83,6 +83,7 @@ public final class SentencesTest {
         C.bad(2, "The plural ^is boxes.");
         C.bad(2, "The plural of box ^has boxes.");
         C.bad(2, "The plural of box is ^the boxes.");
+        C.bad(2, "The plural of box is boxes ^and crates.");
         C.bad(2, "A ^verb to like means the liking relation.");
     }
 
@@ -115,6 +116,8 @@ public final class SentencesTest {
         C.bad(2, "The lamp is carried ^the box.");
         C.bad(2, "The lamp is worn ^in the box.");
         C.bad(2, "The lamp is in ^it.");
+        C.bad(2, "The lamp is a thing in ^it.");
+        C.bad(2, "The weight of lamp is 5 ^and.");
         C.bad(2, "The lamp is in the box ^and.");
         C.bad(2, "The yard is north of ^.");
         C.bad(2, "The yard is not north ^of hall.");
@@ -141,6 +144,7 @@ public final class SentencesTest {
         C.bad(2, "Liking relates one ^various people to one thing.");
         C.bad(2, "Liking relates one person ^and one thing.");
         C.bad(2, "Liking relates one person to ^thing.");
+        C.bad(2, "Liking relates one person to one thing ^and.");
         C.bad(2, "The ^a liking relates one person to one thing.");
         C.bad(2, "Anna likes ^of.");
         C.bad(2, "Anna ^it likes.");
