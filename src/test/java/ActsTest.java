@@ -117,6 +117,10 @@ public final class ActsTest {
             + " Before waiting when the tin is dark: say \"b\". Before waiting when the tin is lit: say \"c\".");
         C.act(WAIT, NONE, 0, "a\nc\n");
         C.act(WAIT, NONE, 0, "c\n");
+        C.good("A thing has a number called weight. The weight of player is 3. Before waiting when the weight of player is more than 3: say \"a\"."
+            + " Before waiting when the weight of player is more than 2: say \"b\". Before waiting when the weight of player is less than 3: say \"c\"."
+            + " Before waiting when the weight of player is less than 4: say \"d\". Before waiting when the weight of player is not 3: say \"e\".");
+        C.act(WAIT, NONE, 0, "b\nd\n");
         // The noun of a rule whose object is told without an ART.
         C.good("Colour is a kind of value. Colour is red. A box is a kind. A box has a colour called tint. The bag is a box."
             + " Instead of taking bag when noun is red: say \"[the tint of the noun]\".");

@@ -86,6 +86,9 @@ public final class CommandsTest {
         C.bad(8, world + "^\"\" as frob.");
         C.bad(8, world + "^\" \" as singing.");
         C.bad(8, world + "^\"x []\" as frob.");
+        C.bad(8, world + "^\"x [abcdefghijklm]\" as frob.");
+        C.bad(8, world + "^\"x [the box]\" as frob.");
+        C.good("Abcdefghijkl is a kind. Understand \"x [abcdefghijkl]\" as taking.");
         C.bad(8, world + "^\"[thing] [thing]\" as frob.");
         C.bad(4, world + "\"rub [frob]\" as ^frob.");
         C.bad(4, world + "\"rub\" as ^box.");

@@ -144,6 +144,8 @@ public final class MeaningsTest {
         C.bad(4, WORLD + "The lamp is ^thing.");
         C.bad(4, WORLD + "The lamp is ^things.");
         C.bad(4, WORLD + "The lamp are not ^things.");
+        C.bad(4, WORLD + "The lamp are ^heavy things.");
+        C.bad(4, WORLD + "The lamp and the ^crate are heavy things.");
         C.bad(4, WORLD + "The lamp is ^heavy.");
         C.bad(4, WORLD + "The chest is not ^red.");
         C.bad(4, WORLD + "The chest and the lamp are ^red.");

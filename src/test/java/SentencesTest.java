@@ -48,6 +48,7 @@ public final class SentencesTest {
         C.bad(1, hall + "^\"a\u00e9\"");
         C.bad(1, hall + "^\"a\u007f\"");
         C.good(hall + "\"[ ~\".", 2);
+        C.good(hall + "\"x\".The yard is a room.\"y\"The den is a room.", 5);
         // The . may lack: what stands behind the TEXT is another sentence.
         C.bad(2, hall + "\"x\" ^is a room.");
         C.bad(1, hall + "\"x\" ^$ .");

@@ -168,7 +168,7 @@ public final class WorldTest {
         C.good("The aa is a room. The bb is a room. The cc is a room. The aa is west of the cc. The aa is west of the bb.");
         C.due("the first told, of a higher number", C.x.leads(1, 2), 3);
         // As told goes ahead of the way back.
-        C.good("The aa is a room. The bb is north of the aa. The cc is south of the bb.");
+        C.good("Aa is a room. Bb is north of aa. Cc is south of bb.");
         C.due("as told", C.x.leads(2, 1), 3);
         C.due("as told", C.x.leads(1, 0), 2);
         C.due("back", C.x.leads(3, 0), 2);
