@@ -3125,6 +3125,12 @@ public final class RuleSentences {
         int written;
         private int phrases;
         private boolean ended;
+        /**
+         * While one TEST is asked: for each depth and DEFINED adjective a bit for each object of which it is known whether
+         * it holds, and of which it does. Without these, six TESTS in each of eight would be asked six to the eighth times.
+         */
+        private final int[][] asked = new int[WITHIN_MOST][ADJECTIVE_MOST];
+        private final int[][] found = new int[WITHIN_MOST][ADJECTIVE_MOST];
 
         Turns(World w, Book book) {
             this.v = w.v;
@@ -3235,6 +3241,7 @@ public final class RuleSentences {
             return so != c.not;
         }
 
+        /** Asked anew (depth 0), or with so many DEFINED adjectives around it. */
         boolean adjectiveHolds(int object, int adjective, int depth) {
             if (v.contrary[adjective] != NONE) {
                 return w.hasAdjective(object, adjective);
@@ -3242,12 +3249,28 @@ public final class RuleSentences {
             if (depth >= WITHIN_MOST || !v.isKind(w.kindOf[object], v.adjectiveKind[adjective])) {
                 return false;
             }
-            for (int i = 0; i < v.testCount[adjective]; i++) {
-                if (!holds(book.clauseAt(v.firstTest[adjective] + i), object, depth + 1)) {
-                    return false;
+            if (depth == 0) {
+                forget();
+            }
+            int bit = 1 << object;
+            if ((asked[depth][adjective] & bit) == 0) {
+                asked[depth][adjective] |= bit;
+                boolean all = true;
+                for (int i = 0; i < v.testCount[adjective] && all; i++) {
+                    all = holds(book.clauseAt(v.firstTest[adjective] + i), object, depth + 1);
+                }
+                found[depth][adjective] |= all ? bit : 0;
+            }
+            return (found[depth][adjective] & bit) != 0;
+        }
+
+        private void forget() {
+            for (int depth = 0; depth < WITHIN_MOST; depth++) {
+                for (int a = 0; a < ADJECTIVE_MOST; a++) {
+                    asked[depth][a] = 0;
+                    found[depth][a] = 0;
                 }
             }
-            return true;
         }
 
         private void perform(Clause c, int noun, int depth) {

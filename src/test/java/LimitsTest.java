@@ -5,6 +5,8 @@ public final class LimitsTest {
     public static void main(String[] args) {
         tooMany();
         tooManyInOne();
+        allFull();
+        firstPlace();
         otherKinds();
         otherWords();
         otherPlaces();
@@ -13,19 +15,29 @@ public final class LimitsTest {
     }
 
     private static void tooMany() {
+        C.of("3: 9: 16 kinds");
         C.good(Checks.words(0, 11) + " are a kind.", 1);
         C.due("kinds", C.x.told(0), 16);
         C.bad(9, Checks.words(0, 11) + ", ^" + Checks.word(11) + " are a kind.");
+        C.bad(9, Checks.words(0, 11) + " are a kind. ^X is a kind of frob.");
+        C.of("3: 9 .. (what is NEW, as it must be, and beyond, there)");
         C.bad(3, Checks.words(0, 11) + " are a kind. ^Thing is a kind.");
+        C.bad(3, Checks.words(0, 11) + " are a kind. A ^won two three four is a kind.");
+        C.bad(3, Checks.words(0, 10) + " are a kind. X, ^x and y are a kind.");
+        C.of("3: 9: 8 TYPES");
         C.good(Checks.words(0, 6) + " are a kind of value.", 1);
         C.due("TYPES", C.x.told(1), 8);
         C.bad(9, Checks.words(0, 6) + " are a kind of value. ^x is a kind of value.");
+        C.of("3: 9: 24 objects");
         C.good(Checks.words(0, 23) + " are a thing.", 1);
         C.due("objects", C.x.told(2), 24);
         C.bad(9, Checks.words(0, 23) + ", ^x, y are a thing.");
         C.good(Checks.words(0, 23) + " are a thing. " + Checks.words(0, 23) + " are fixed.", 2);
         C.bad(9, Checks.words(0, 23) + " are a room. The ^x is north of waa.");
         C.bad(9, Checks.words(0, 23) + " are a room. The ^x is in waa.");
+        C.bad(4, Checks.words(0, 23) + " are a thing. The ^thing is a thing.");
+        C.bad(3, Checks.words(0, 23) + " are a thing. The ^won two three four is a thing.");
+        C.of("3: 9: 24 adjectives");
         StringBuilder adjectives = new StringBuilder();
         for (int i = 0; i < 11; i++) {
             adjectives.append("A thing can be ").append(Checks.word(2 * i)).append(" or ").append(Checks.word(2 * i + 1)).append(". ");
@@ -36,9 +48,12 @@ public final class LimitsTest {
         C.bad(9, adjectives + "Definition: a thing is ^x if it is fixed.");
         C.bad(9, adjectives.substring(adjectives.indexOf("A", 1)) + "Definition: a thing is q if it is fixed."
             + " A thing can be x or ^y.");
+        C.of("3: 9: 8 values of a TYPE");
         C.good("Colour is a kind of value. Colour is " + Checks.words(0, 8) + ". Mood is a kind of value. Mood is x.", 4);
         C.bad(9, "Colour is a kind of value. Colour is " + Checks.words(0, 8) + ", ^x.");
         C.bad(9, "Colour is a kind of value. Colour is " + Checks.words(0, 8) + ". Colours is ^x.");
+        C.bad(9, "Colour is a kind of value. Colour is " + Checks.words(0, 7) + ". Colours are x, ^y.");
+        C.of("3: 9: 12 properties");
         StringBuilder properties = new StringBuilder();
         for (int i = 0; i < 11; i++) {
             properties.append("A thing has a number called ").append(Checks.word(i)).append(". ");
@@ -46,12 +61,14 @@ public final class LimitsTest {
         C.good(properties + "A room has a number called waa.", 12);
         C.due("properties", C.x.told(5), 12);
         C.bad(9, properties + "A thing has a number called ^x.");
+        C.of("3: 9: 6 relations");
         StringBuilder relations = new StringBuilder();
         for (int i = 0; i < 6; i++) {
             relations.append(Checks.word(i)).append(" relates one thing to one thing. ");
         }
         C.good(relations.toString(), 6);
         C.bad(9, relations + "^x relates one thing to one thing.");
+        C.of("3: 9: 8 verbs");
         StringBuilder verbs = new StringBuilder("Liking relates one thing to one thing. ");
         for (int i = 0; i < 8; i++) {
             verbs.append("The verb to ").append(Checks.word(i)).append(" means the liking relation. ");
@@ -59,11 +76,14 @@ public final class LimitsTest {
         C.good(verbs.toString(), 9);
         C.bad(9, verbs + "The verb to ^x means the liking relation.");
         C.bad(3, verbs + "The verb to ^waa means the liking relation.");
+        C.of("3: 9: 12 actions");
         C.good(Checks.words(0, 7) + " are an action.", 1);
         C.bad(9, Checks.words(0, 7) + ", ^x are an action.");
+        C.of("3: 9: 20 COMMANDS (at the TEXT)");
         C.good(Checks.times("Understand \"x\" as waiting. ", 13), 13);
         C.due("COMMANDS", C.x.told(10), 20);
         C.bad(9, Checks.times("Understand \"x\" as waiting. ", 13) + "Understand ^\"5\" as thing.");
+        C.of("3: 9: 24 RULES (3 to 6; at their first token)");
         C.good(Checks.times("Before waiting: stop. Every turn: stop. ", 12), 24);
         C.bad(9, Checks.times("Before waiting: stop. Every turn: stop. ", 12) + "^After frob: stop.");
         C.bad(9, Checks.times("Instead of waiting: stop. After waiting: stop. ", 12) + "^Every turn: stop.");
@@ -71,6 +91,7 @@ public final class LimitsTest {
 
     private static void tooManyInOne() {
         String six = Checks.times("the player is fixed and ", 5) + "the player is fixed";
+        C.of("3: 9: 6 TESTS (at the first token of the next one)");
         C.good("Every turn when " + six + ": stop.", 1);
         C.due("TESTS", C.x.rule(0, 5), 6);
         C.bad(9, "Every turn when " + six + " and ^the player is fixed: stop.");
@@ -78,6 +99,7 @@ public final class LimitsTest {
         C.bad(4, "Every turn when ^noun is fixed and " + six + " and it is fixed: stop.");
         C.good("Definition: a thing is odd if " + six + ".", 1);
         C.bad(9, "Definition: a thing is odd if " + six + " and ^it is fixed.");
+        C.of("3: 9: 8 PHRASES (at the first token of the next one)");
         String eight = Checks.times("stop; ", 7) + "stop";
         C.good("Every turn: " + eight + ".", 1);
         C.due("PHRASES", C.x.rule(0, 6), 8);
@@ -85,7 +107,98 @@ public final class LimitsTest {
         C.bad(8, "Every turn: say ^\"[\"; " + eight + ".");
     }
 
+    /** All that there may be, all at once. */
+    private static void allFull() {
+        C.of("3: 16 kinds, 8 TYPES, 24 objects, 24 adjectives, 8 values of a TYPE, 12 properties, 6 relations, 8 verbs, 12 actions, 20 COMMANDS, 24 RULES");
+        StringBuilder s = new StringBuilder(Checks.words(0, 11)).append(" are a kind. ").append(Checks.words(11, 17)).append(" are a kind of value. ");
+        for (int i = 0; i < 6; i++) {
+            s.append(Checks.word(11 + i)).append(" is ").append(Checks.words(20 + 8 * i, 28 + 8 * i)).append(". ");
+        }
+        s.append(Checks.words(70, 93)).append(" are a thing. ");
+        for (int i = 0; i < 11; i++) {
+            s.append("Thing can be ").append(Checks.word(100 + 2 * i)).append(" or ").append(Checks.word(101 + 2 * i)).append(". ");
+            s.append("Thing has a text called ").append(Checks.word(130 + i)).append(". ");
+        }
+        for (int i = 0; i < 6; i++) {
+            s.append(Checks.word(150 + i)).append(" relates one thing to one thing. ");
+        }
+        for (int i = 0; i < 8; i++) {
+            s.append("The verb to ").append(Checks.word(160 + i)).append(" means the ").append(Checks.word(155)).append(" relation. ");
+        }
+        s.append(Checks.words(170, 177)).append(" are an action. ");
+        s.append(Checks.times("Understand \"x\" as waiting. ", 13)).append(Checks.times("Every turn: stop. ", 24));
+        C.good(s.toString());
+        int[] most = {16, 8, 24, 24, 48, 12, 6, 8, 12, 24, 20};
+        for (int i = 0; i < most.length; i++) {
+            C.due("told(" + i + ")", C.x.told(i), most[i]);
+        }
+        C.due("the last value", C.name(4, 47), Checks.word(67));
+        C.due("the last object", C.name(2, 23), Checks.word(92));
+        C.due("the last adjective", C.name(3, 23), Checks.word(121));
+        C.due("the last plural", C.name(11, 15), Checks.word(10) + "s");
+        C.due("the last action", C.name(8, 11), Checks.word(176));
+        C.due("is(23, 23)", C.x.is(23, 23), 1);
+        C.due("property(23, 11)", C.x.property(23, 11), 0);
+        C.due("act(11, NONE)", C.x.act(11, RuleSentences.NONE), 0);
+        C.due("command <examine " + Checks.word(92) + ">", C.command("examine " + Checks.word(92)), 0);
+    }
+
+    private static void firstPlace() {
+        String world = "The hall is a room. The tin is a container. The bag is a container in the hall. ";
+        C.of("3: Else the first place");
+        C.bad(3, world + "Box and ^thing are a kind of frob.");
+        C.bad(4, world + "Box and bin are a kind of ^frob.");
+        C.bad(4, world + "The ^thing is a frob in the frob.");
+        C.bad(3, world + "The ^so very old tin is a frob in the frob.");
+        C.bad(4, world + "The tin is a ^frob in the frob.");
+        C.bad(4, world + "The tin is a thing in the ^frob.");
+        C.bad(4, world + "The ^frob of the frob is frob.");
+        C.bad(4, world + "The description of the ^frob is frob.");
+        C.bad(4, world + "The description of the tin is ^frob.");
+        C.bad(4, world + "The ^frob has a frob called thing.");
+        C.bad(4, world + "Thing has a ^frob called thing.");
+        C.bad(4, world + "Thing has a number called ^thing.");
+        C.bad(4, world + "The ^frob can be fixed or fixed.");
+        C.bad(3, world + "Thing can be ^fixed or fixed.");
+        C.bad(3, world + "Thing can be old or ^fixed.");
+        C.bad(3, world + "The ^thing relates one frob to one frob.");
+        C.bad(4, world + "Liking relates one ^frob to one frob.");
+        C.bad(4, world + "Liking relates one thing to one ^frob.");
+        C.bad(3, world + "The verb to ^fixed means the frob relation.");
+        C.bad(4, world + "The plural of the ^frob is fixed.");
+        C.bad(4, world + "The ^thing is frob of the frob.");
+        C.bad(4, world + "The yard is ^frob of the frob.");
+        C.bad(4, world + "The yard is north of the ^frob.");
+        C.bad(4, world + "The ^frob is usually frob.");
+        C.bad(8, world + "Understand ^\"5\" as frob.");
+        C.bad(4, world + "Definition: a ^frob is fixed if frob is fixed.");
+        C.bad(3, world + "Definition: a thing is ^fixed if frob is fixed.");
+        C.bad(4, world + "Definition: a thing is odd if ^frob is frob.");
+        C.bad(4, world + "Before ^frob the frob when frob is fixed: say \"[\".");
+        C.bad(4, world + "Before taking the ^frob when frob is fixed: say \"[\".");
+        C.bad(4, world + "Before taking the tin when ^frob is frob: say \"[\".");
+        C.bad(4, world + "Before taking the tin when tin is ^frob: say \"[\".");
+        C.bad(8, world + "Before taking the tin when tin is fixed: say ^\"[\"; now frob is fixed.");
+        C.bad(4, world + "Before taking the tin when tin is fixed: stop; now ^frob is fixed; say \"[\".");
+        C.bad(4, world + "Every turn: move ^frob to frob.");
+        C.bad(4, world + "Every turn: increase the ^frob of frob by 5.");
+        C.of("3: Else, by what it does: 5 and 6 behind all others");
+        C.bad(4, world + "The hall is a thing in the ^frob.");
+        C.bad(4, world + "The tin is in the ^frob.");
+        C.bad(4, world + "The description of the tin is \"x\". The description of the tin is ^5.");
+        C.bad(3, world + "The hall and the ^so very old tin are a thing.");
+        C.of("3: in the LIST's order (kind, ADJECTIVES, place, of each), at the NAME in the LIST");
+        C.bad(6, world + "The ^tin and the hall are in the tin.");
+        C.bad(5, world + "The ^hall and the tin are in the tin.");
+        C.bad(5, world + "The lid, the pot and the ^hall are a thing in the tin.");
+        C.bad(5, world + "The ^tin is a supporter in the tin.");
+        C.bad(5, world + "The tin is fixed. The ^tin is a portable thing in the tin.");
+        C.bad(6, world + "The tin is fixed. The ^tin is a fixed thing in the tin.");
+        C.bad(5, world + "The ^bag is a thing in the bag.");
+    }
+
     private static void otherKinds() {
+        C.of("3: 5 .. an object of a kind that is not the one told, nor above (it stays) or below that (it is of that then)");
         String boxes = "A box is a kind of container. A crate is a kind of container. ";
         C.bad(5, "The hall is a room. The ^hall is a thing.");
         C.bad(5, boxes + "The bag is a box. The ^bag is a crate.");
@@ -95,11 +208,14 @@ public final class LimitsTest {
         C.due("kind of the bag", C.x.object(1, 0), 6);
         C.bad(5, boxes + "The tin, the tub and the lid are a box. The ^tub, the tin are crates.");
         C.bad(5, boxes + "The tin is a box. The tub is a thing. The tub and the ^tin are crates.");
-        C.bad(5, "A thing has a number called weight. A ^room has a text called weight.");
-        C.bad(5, "A ^room has a number called description.");
+        C.of("3: 5 .. a property with another TYPE");
+        C.faulty(5, "A thing has a number called weight. A room has a text called weight.");
+        C.faulty(5, "A room has a number called description.");
+        C.good("A thing has a number called weight. A room has a number called weight. A box is a kind. A box has a text called description.", 4);
     }
 
     private static void otherWords() {
+        C.of("3: 5 .. the contrary of an adjective, another value, number, text, of an object (or of a kind, by usually and 9)");
         String box = "A box is a kind. A box can be open or shut. Colour is a kind of value. Colour is red, blue."
             + " A box has a colour called tint. A thing has a number called weight. The bag is a box. The tin is a box. ";
         C.bad(5, box + "The bag is open. The tin and the ^bag are shut.");
@@ -124,6 +240,7 @@ public final class LimitsTest {
     }
 
     private static void otherPlaces() {
+        C.of("3: 5 .. another place, or a place of what is no thing; a direction from a room to another room. 6 a ring: a place within itself");
         String rooms = "The hall is a room. The yard is a room. The bag is a container in the hall. The tin is a container. ";
         C.bad(5, rooms + "The tin and the ^bag are in the yard.");
         C.bad(5, rooms + "The ^bag is part of the tin.");
@@ -142,6 +259,7 @@ public final class LimitsTest {
     }
 
     private static void otherRelations() {
+        C.of("3: 5 .. a relation with one, to or from another one");
         String all = "Anna and Bert are people. The tin and the bag are things. Liking relates various people to one thing."
             + " The verb to like means the liking relation. Owning relates one person to various things."
             + " The verb to own means the owning relation. ";

@@ -32,9 +32,10 @@ public final class RobustTest {
 
     private static long run(int seed) {
         Random r = new Random(seed);
-        C.x = new RuleSentences();
+        C.fresh();
         long sum = 0;
-        for (int i = 0; i < 60; i++) {
+        // A text has some 700 bytes at most: a hundred calls.
+        for (int i = 0; i < 60 && C.x.calls() < Checks.Counted.CALLS_MOST - 110; i++) {
             int what = r.nextInt(22);
             if (what > 18) {
                 C.feed(text(r));
@@ -85,11 +86,13 @@ public final class RobustTest {
         String start = "The x is a thing. Q relates various things to various things. The verb to like means the q relation. ";
         for (String fill : fills) {
             for (int k = 0; k < 2; k++) {
-                C.x = new RuleSentences();
+                C.fresh();
                 String tape = (k == 0 ? "" : start) + Checks.times(fill, 5000);
+                C.x.mayGoBeyond();
                 C.feed(tape.substring(0, 4999) + ".");
                 int got = C.x.read();
                 C.due("a full tape of <" + fill + "> is read", got > 0 || got <= -10 && got >= -5010, true);
+                C.due("the TAPE behind it", C.x.wipe(), 0);
             }
         }
     }

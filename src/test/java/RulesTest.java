@@ -6,6 +6,7 @@ public final class RulesTest {
     public static void main(String[] args) {
         asTold();
         order();
+        pairs();
         C.end("RulesTest");
     }
 
@@ -16,6 +17,7 @@ public final class RulesTest {
     }
 
     private static void asTold() {
+        C.of("15: RULE i (as told)");
         C.good("A box is a kind. A box can be open or shut. Colour is a kind of value. Colour is red. A box has a colour called tint."
             + " The bag is a box. Rub is an action applying to one box. Definition: a thing is odd if it is fixed."
             + " Before waiting: stop. Instead of taking the bag when the bag is open and the bag is odd: say \"x\"; stop; stop."
@@ -40,7 +42,58 @@ public final class RulesTest {
         rule(0, 0, 0, NONE, NONE, 0, 0, 1, 0);
     }
 
+    /** Of each two, one alone is what sets them apart; the first comes first, in whichever order they are told. */
+    private static void pairs() {
+        String world = "A box is a kind. A crate is a kind of box. A mat is a kind. The bag is a crate. The tin is a thing. ";
+        String two = " when bag is fixed and tin is fixed";
+        String[][] pairs = {
+            {"with an object", "the tin", "an fixed portable crate" + two},
+            {"with an object", "bag", two},
+            {"with a DESCRIPTION", "a thing", two},
+            {"the kind with more above it", "a box", "a fixed fixed thing" + two},
+            {"the kind with more above it", "a crate", "a fixed fixed box" + two},
+            {"the kind with more above it", "a crate", "a fixed mat" + two},
+            {"more ADJECTIVES", "a fixed box", "a box" + two},
+            {"more ADJECTIVES", "a fixed portable thing", "a fixed thing" + two},
+            {"more ADJECTIVES, of another kind with as many above it", "a fixed box", "a mat" + two},
+            {"more TESTS, with an object", "the tin when bag is fixed", "the bag"},
+            {"more TESTS, with a DESCRIPTION", "a box" + two, "a box when bag is fixed"},
+            {"more TESTS, of another kind with as many above it", "a mat when bag is fixed", "a box"},
+            {"more TESTS, others", " when bag is fixed", ""}};
+        for (String[] pair : pairs) {
+            C.of("5: ORDER of RULES of one sort: " + pair[0]);
+            String first = "Before taking " + pair[1] + ": stop. ";
+            String second = "Before taking " + pair[2] + ": stop. ";
+            C.good(world + first + second);
+            C.due("the first of <" + first + second + ">", C.x.rule(0, 7), 0);
+            C.due("the second of it", C.x.rule(1, 7), 1);
+            C.good(world + second + first);
+            C.due("the first of <" + second + first + ">", C.x.rule(1, 7), 0);
+            C.due("the second of it", C.x.rule(0, 7), 1);
+        }
+        C.of("5: ORDER of RULES of one sort: .. of alike ones .. then as told");
+        String[] alike = {"the tin", "the bag", "a fixed box", "a portable mat", "", "a box when tin is fixed", "a mat when bag is fixed"};
+        for (int i = 0; i + 1 < alike.length; i++) {
+            if (i % 2 == 0 && i != 4 || i == 5) {
+                String one = "Before taking " + alike[i] + ": stop. ";
+                String other = "Before taking " + alike[i + 1] + ": stop. ";
+                C.good(world + one + other);
+                C.due("<" + one + other + ">", C.x.rule(0, 7) * 10 + C.x.rule(1, 7), 1);
+                C.good(world + other + one);
+                C.due("<" + other + one + ">", C.x.rule(0, 7) * 10 + C.x.rule(1, 7), 1);
+            }
+        }
+        C.of("15: its place in the ORDER of its sort");
+        C.good(world + "Before waiting: stop. After waiting: stop. Every turn: stop. Instead of waiting: stop. Before waiting when tin is fixed: stop. Before taking tin: stop."
+            + " After taking: stop. Every turn when tin is fixed: stop. Instead of taking a box: stop. Before dropping: stop.");
+        int[] due = {2, 0, 1, 1, 1, 0, 1, 0, 0, 3};
+        for (int i = 0; i < due.length; i++) {
+            C.due("rule(" + i + ", 7)", C.x.rule(i, 7), due[i]);
+        }
+    }
+
     private static void order() {
+        C.of("5: ORDER of RULES of one sort: with an object; then with a DESCRIPTION, the kind with more above it first, of these that with more ADJECTIVES; then others; of alike ones those with more TESTS; then as told");
         C.good("A box is a kind. A crate is a kind of box. A thing can be old or new. The bag is a crate. The tin is a thing."
             + " Before taking: stop."
             + " Before taking a thing: stop."

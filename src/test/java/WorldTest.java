@@ -8,6 +8,7 @@ public final class WorldTest {
         objects();
         adjectives();
         defined();
+        placeTests();
         properties();
         ways();
         relations();
@@ -15,6 +16,7 @@ public final class WorldTest {
     }
 
     private static void kinds() {
+        C.of("2: A kind has what it, and all above it, were told to have");
         C.good("A box is a kind of container. A crate and bin are a kind of box. A mat is a kind. A cave is a kind of room."
             + " A box can be open or shut. A thing has a number called weight. A crate has a number called weight."
             + " A bin has a text called label. Definition: a crate is odd if it is fixed.");
@@ -32,6 +34,7 @@ public final class WorldTest {
     }
 
     private static void objects() {
+        C.of("4: Who has no place is nowhere; the player is in the first room (the lowest number), if nothing else was told");
         C.good("The table is a supporter. Anna is a person. The hall is a room. The tin is a container on the table."
             + " The pea is in the tin. The lid is part of the tin. The cap is worn by Anna. The key is carried by Anna."
             + " Anna is in the hall.");
@@ -62,6 +65,7 @@ public final class WorldTest {
     }
 
     private static void adjectives() {
+        C.of("4: an adjective holds of an object as told of it, else as told of its kind, or the nearest one above; else of two contrary ones the second");
         C.good("A box is a kind. A crate is a kind of box. A thing can be old or new. The tin is a thing. The bag is a box."
             + " The bin and the tub are crates. The hall is a room. A thing is usually old. A box is usually new."
             + " The bin is old. The tin is not portable.");
@@ -85,6 +89,7 @@ public final class WorldTest {
     }
 
     private static void defined() {
+        C.of("4: A DEFINED adjective holds, when the object is of its kind and all its TESTS hold for it");
         String tests = "Colour is a kind of value. Colour is red, blue. A thing has a colour called tint. A thing has a number called weight."
             + " The hall is a room. The tin is a blue thing in the hall. The weight of tin is 3. Liking relates various things to various things."
             + " The verb to like means the liking relation. The tin likes the player. The player likes the tin."
@@ -105,6 +110,7 @@ public final class WorldTest {
             C.due("is(bag, " + (i + 2) + ")", C.x.is(3, i + 2), bag[i]);
         }
         C.due("a room is not of its kind", C.x.is(1, 2), NONE);
+        C.of("4: (when eight lie within one another, the ninth does not hold)");
         StringBuilder chain = new StringBuilder("Definition: a thing is waa if it is portable. ");
         for (int i = 1; i < 10; i++) {
             chain.append("Definition: a thing is ").append(Checks.word(i)).append(" if it is ").append(Checks.word(i - 1)).append(". ");
@@ -114,9 +120,52 @@ public final class WorldTest {
         C.due("nine within one another", C.x.is(0, 2 + 8), 0);
         C.due("ten within one another", C.x.is(0, 2 + 9), 0);
         C.due("the ninth does not hold", C.x.is(0, 2 + 10), 1);
+        C.good(chain + "Before waiting when the player is wah: say \"8\". Before waiting when the player is wai: say \"9\"."
+            + " Before waiting when the player is not wah: say \"not 8\". Before waiting when the player is not wai: say \"not 9\"."
+            + " Before taking a wah thing: say \"8\". Before taking a wai thing: say \"9\". Before taking a person when noun is wah: say \"noun 8\".");
+        C.due("waiting", C.x.act(0, NONE), 0);
+        C.due("what is said", C.said(), "8\nnot 9\n");
+        C.due("taking", C.x.act(1, 0), 3);
+        C.due("what is said", C.said(), "noun 8\n8\n");
+        // Six TESTS in each of eight, and two of them not the first: each object has an answer of its own.
+        StringBuilder wide = new StringBuilder("The tin is a fixed thing. Definition: a thing is waa if it is portable. ");
+        for (int i = 1; i < 8; i++) {
+            String test = " is " + Checks.word(i - 1);
+            wide.append("Definition: a thing is ").append(Checks.word(i)).append(" if it").append(Checks.times(test + " and it", 4)).append(test)
+                .append(" and the player").append(test).append(". ");
+        }
+        C.good(wide + "Definition: a thing is odd if it is not wah. Definition: a thing is even if it is not wah and the tin is not wah and the player is wah.");
+        C.due("the player is wah", C.x.is(0, 9), 1);
+        C.due("the tin is not wah", C.x.is(1, 9), 0);
+        C.due("the player is not odd, eight deep", C.x.is(0, 10), 1);
+        C.due("the tin is odd", C.x.is(1, 10), 1);
+        C.due("the tin is even", C.x.is(1, 11), 0);
+    }
+
+    private static void placeTests() {
+        C.of("4: A TEST of a PLACE: it is there itself, in that way");
+        C.good("The hall is a room. The bag is a container in the hall. The mat is a supporter in the bag. The tin is a container on the mat. The lid is part of the tin."
+            + " Anna is a person in the hall. The cap is worn by anna. The key is carried by anna. The yard is a room."
+            + " Definition: a thing is aa if it is in the hall. Definition: a thing is bb if it is in the bag. Definition: a thing is cc if it is on the mat."
+            + " Definition: a thing is dd if it is part of the tin. Definition: a thing is ee if it is worn by anna. Definition: a thing is ff if it is carried by anna."
+            + " Definition: a thing is gg if it is not in the hall. Definition: a thing is hh if it is in it. Definition: a room is ii if bag is in it."
+            + " Definition: a thing is jj if it is part of anna. Definition: a thing is kk if it is in tin. Definition: a room is ll if it is not in it.");
+        // Of each object the one of 2 .. 7, 11 and 12 that holds; gg (8) holds of all that are not in the hall.
+        int[] held = {2, NONE, 2, 3, 4, 5, 2, 6, 7};
+        int[] asked = {2, 3, 4, 5, 6, 7, 8, 9, 11, 12};
+        for (int i = 0; i < held.length; i++) {
+            for (int a : asked) {
+                int due = a == held[i] || a == 8 && held[i] != 2 ? 1 : 0;
+                C.due("is(" + i + ", " + a + ")", C.x.is(i, a), i == 1 ? NONE : due);
+            }
+        }
+        C.due("the bag is in the hall", C.x.is(1, 10), 1);
+        C.due("the bag is not in the yard", C.x.is(9, 10), 0);
+        C.due("the hall is not in itself", C.x.is(1, 13), 1);
     }
 
     private static void properties() {
+        C.of("4: Numbers, values, texts likewise; else 0, the TYPE's first value (NONE without), empty");
         C.good("Colour is a kind of value. Mood is a kind of value. Colour is red. Mood is sad and so. Colour is blue."
             + " Void is a kind of value. A thing has a mood called mind. A thing has a colour called tint. A thing has a void called gap."
             + " A box is a kind. A thing has a number called weight. A box has a text called label. The tin is a box. The hall is a room."
@@ -150,6 +199,7 @@ public final class WorldTest {
     }
 
     private static void ways() {
+        C.of("4: From a room a way leads as told; else, of the ways told of a room B by the contrary direction that lead to this room, the first told: to B");
         C.good("The hall is a room. The yard is north of the hall. The den is up of the yard. The hall is east of the den."
             + " The attic is a room. The hall is north of the attic. The yard is south of the attic. The den is a room. The loft is a room."
             + " The yard is south of the loft. The tin is a thing.");
@@ -175,6 +225,7 @@ public final class WorldTest {
     }
 
     private static void relations() {
+        C.of("2: each of these to each of those");
         C.good("Anna and Bert are people. The tin is a thing. Liking relates various people to various things."
             + " The verb to like means the liking relation. The verb to love means the liking relation. Anna and the player like the tin, Bert."
             + " Bert loves Bert.");
