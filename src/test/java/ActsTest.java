@@ -19,6 +19,8 @@ public final class ActsTest {
         applying();
         says();
         nows();
+        nothingElse();
+        longestNames();
         relationsNow();
         moves();
         ringsByMove();
@@ -302,6 +304,60 @@ public final class ActsTest {
         C.due("owned by the tin", C.x.related(1, 1, 1), true);
         C.due("knows", C.x.related(2, 0, 1), true);
         C.due("still knows", C.x.related(2, 0, 0), true);
+    }
+
+    /** What is so now is all that is otherwise. */
+    private static void nothingElse() {
+        C.of("5: now: so it is then");
+        String story = "A thing can be lit or dark. Colour is a kind of value. Colour is red, blue. A thing has a colour called tint. A thing has a text called label."
+            + " A thing has a number called weight. The tin is a thing. \"Tin.\" The bag is a container. The tin is in the bag. Liking relates one thing to one thing."
+            + " The verb to like means the liking relation. Owning relates one thing to one thing. The verb to own means the owning relation. Knowing relates one thing to one thing."
+            + " The verb to know means the knowing relation. The tin likes the bag. The tin owns the bag. The tin knows the bag. The label of tin is \"L\". The weight of tin is 5."
+            + " The tint of tin is red. Before waiting: now the tin is @. ";
+        String[] nows = {"fixed", "lit", "not lit", "blue"};
+        int[][] due = {{1, 0, 0}, {0, 1, 0}, {0, 0, 0}, {0, 0, 1}};
+        for (int i = 0; i < nows.length; i++) {
+            C.good(story.replace("@", nows[i]));
+            C.x.act(WAIT, NONE);
+            unchanged(due[i][0], due[i][1], due[i][2]);
+        }
+        String[] others = {"label of tin is \"L\"", "weight of tin is 5", "tint of tin is red"};
+        for (String other : others) {
+            C.good(story.replace("tin is @", other));
+            C.x.act(WAIT, NONE);
+            unchanged(0, 0, 0);
+        }
+        C.good(story.replace("the tin is @", "the tin owns the bag"));
+        C.x.act(WAIT, NONE);
+        unchanged(0, 0, 0);
+        C.good(story.replace("now the tin is @", "move the tin to the bag; increase the weight of tin by 0; decrease the weight of tin by 0"));
+        C.x.act(WAIT, NONE);
+        unchanged(0, 0, 0);
+    }
+
+    private static void unchanged(int fixed, int lit, int tint) {
+        C.due("fixed", C.x.is(1, 0), fixed);
+        C.due("portable", C.x.is(1, 1), 1 - fixed);
+        C.due("lit", C.x.is(1, 2), lit);
+        C.due("dark", C.x.is(1, 3), 1 - lit);
+        C.due("description", C.text(1, 0), "Tin.");
+        C.due("tint", C.x.property(1, 1), tint);
+        C.due("label", C.text(1, 2), "L");
+        C.due("weight", C.x.property(1, 3), 5);
+        C.place(1, 1, 2);
+        C.place(2, 0, NONE);
+        for (int r = 0; r < 3; r++) {
+            C.due("related(" + r + ", 1, 2)", C.x.related(r, 1, 2), true);
+        }
+        C.due("the bag is not fixed", C.x.is(2, 0), 0);
+    }
+
+    private static void longestNames() {
+        C.of("5: an object's words, small, a blank between; .. a value's words");
+        String name = "Abcdefghijkl mnopqrstuvwx yzabcdefghij";
+        C.good("Colour is a kind of value. Colour is Zbcdefghijkl mnopqrstuvwx yzabcdefghij. A thing has a colour called abcdefghijkl abcdefghijkl abcdefghijkl. The " + name
+            + " is a thing. Instead of waiting: say \"<[the " + name + "]>[the abcdefghijkl abcdefghijkl abcdefghijkl of player]\".");
+        C.act(WAIT, NONE, 2, "<" + name.toLowerCase() + ">zbcdefghijkl mnopqrstuvwx yzabcdefghij\n");
     }
 
     private static void relationsNow() {

@@ -115,16 +115,16 @@ final class Checks {
 
     String name(int what, int i) {
         StringBuilder s = new StringBuilder();
-        for (int k = 0; x.name(what, i, k) != RuleSentences.NONE; k++) {
-            s.append((char) x.name(what, i, k));
+        for (int c = x.name(what, i, 0); c != RuleSentences.NONE; c = x.name(what, i, s.length())) {
+            s.append((char) c);
         }
         return s.toString();
     }
 
     String text(int object, int property) {
         StringBuilder s = new StringBuilder();
-        for (int k = 0; x.letter(object, property, k) != RuleSentences.NONE; k++) {
-            s.append((char) x.letter(object, property, k));
+        for (int c = x.letter(object, property, 0); c != RuleSentences.NONE; c = x.letter(object, property, s.length())) {
+            s.append((char) c);
         }
         return s.toString();
     }
@@ -132,7 +132,8 @@ final class Checks {
     /** All of OUT, which is empty then. */
     String said() {
         StringBuilder s = new StringBuilder();
-        for (int i = 0; i < x.outs(); i++) {
+        int n = x.outs();
+        for (int i = 0; i < n; i++) {
             s.append((char) x.out(i));
         }
         x.clear();

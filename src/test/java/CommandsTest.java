@@ -127,6 +127,13 @@ public final class CommandsTest {
         C.due("fifty words", C.command(Checks.times("a ", 50)), -2);
         C.due("fifty-one words", C.command(Checks.times("a ", 51)), -2);
         C.due("many words", C.command(Checks.times("a b ", 200)), -2);
+        C.of("5: words of more than twelve letters are none that an object has");
+        C.good("The tin is a thing. The tin cans is a thing.");
+        for (String t : new String[] {"take tin abcdefghijklm", "take abcdefghijklm tin", "take abcdefghijklm", "abcdefghijklm", "abcdefghijklm wait", "wait abcdefghijklm"}) {
+            C.due("command <" + t + ">", C.command(t), -2);
+        }
+        C.due("take tin cans", C.command("take tin cans"), 0);
+        C.due("take tin", C.command("take tin"), 0);
     }
 
     private static void atGap() {
@@ -176,6 +183,13 @@ public final class CommandsTest {
         C.good(world + "\"sing\" as singing.");
         C.bad(8, world + "^\"sing [thing]\" as singing.");
         C.bad(8, world + "^\"sing [direction]\" as singing.");
+        C.bad(8, world + "\"rub [container]\" as rubbing. Understand ^\"rub\" as rubbing.");
+        C.bad(8, world + "\"run [direction]\" as going. Understand ^\"run\" as going.");
+        C.good(world + "\"rub [container]\" as rubbing. Understand \"sing\" as singing.");
+        C.good("A very big box is a kind. Understand \"grab [very big box]\" as taking. Understand \"grab [VERY  Big box] now\" as taking. The pin is a very big box.");
+        C.due("grab pin", C.command("grab pin"), 0);
+        C.due("grab pin now", C.command("grab pin now"), 3);
+        C.due("grab player", C.command("grab player"), -2);
     }
 
     private static void texts() {

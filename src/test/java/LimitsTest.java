@@ -6,6 +6,7 @@ public final class LimitsTest {
         tooMany();
         tooManyInOne();
         allFull();
+        fullRules();
         firstPlace();
         otherKinds();
         otherWords();
@@ -141,6 +142,50 @@ public final class LimitsTest {
         C.due("property(23, 11)", C.x.property(23, 11), 0);
         C.due("act(11, NONE)", C.x.act(11, RuleSentences.NONE), 0);
         C.due("command <examine " + Checks.word(92) + ">", C.command("examine " + Checks.word(92)), 0);
+        C.due("command <frob>", C.command("frob"), -2);
+        C.of("7 to 16: NONE: none such, when all is full");
+        for (int i = 0; i < 9; i++) {
+            C.due("name(" + i + ", " + most[i] + ", 0)", C.x.name(i, most[i], 0), RuleSentences.NONE);
+        }
+        C.due("name(11, 16, 0)", C.x.name(11, 16, 0), RuleSentences.NONE);
+        C.due("kind(16, 1)", C.x.kind(16, 1), RuleSentences.NONE);
+        C.due("object(24, 0)", C.x.object(24, 0), RuleSentences.NONE);
+        C.due("is(24, 0)", C.x.is(24, 0), RuleSentences.NONE);
+        C.due("is(0, 24)", C.x.is(0, 24), RuleSentences.NONE);
+        C.due("property(24, 0)", C.x.property(24, 0), RuleSentences.NONE);
+        C.due("property(0, 12)", C.x.property(0, 12), RuleSentences.NONE);
+        C.due("letter(0, 12, 0)", C.x.letter(0, 12, 0), RuleSentences.NONE);
+        C.due("leads(24, 0)", C.x.leads(24, 0), RuleSentences.NONE);
+        C.due("related(6, 0, 0)", C.x.related(6, 0, 0), false);
+        C.due("related(0, 24, 0)", C.x.related(0, 24, 0), false);
+        C.due("related(0, 0, 24)", C.x.related(0, 0, 24), false);
+        C.due("rule(24, 0)", C.x.rule(24, 0), RuleSentences.NONE);
+        C.due("rule(24, 7)", C.x.rule(24, 7), RuleSentences.NONE);
+        C.due("act(12, NONE)", C.x.act(12, RuleSentences.NONE), RuleSentences.NONE);
+        C.due("act(1, 24)", C.x.act(1, 24), RuleSentences.NONE);
+    }
+
+    private static void fullRules() {
+        C.of("3: 24 RULES, 6 TESTS, 8 PHRASES, all at once");
+        StringBuilder s = new StringBuilder("X is a thing. Thing can be y or z. X is y. ");
+        StringBuilder due = new StringBuilder();
+        for (int i = 0; i < 24; i++) {
+            s.append("Every turn when ").append(Checks.times("x is y and ", 5)).append(i % 2 == 0 ? "x is y" : "x is z")
+                .append(":say\"").append(Checks.word(i)).append("\";").append(Checks.times("stop;", 6)).append("stop. ");
+            due.append(i % 2 == 0 ? Checks.word(i) + "\n" : "");
+        }
+        C.good(s.toString(), 27);
+        for (int i = 0; i < 24; i += 23) {
+            C.due("rule(" + i + ", 5)", C.x.rule(i, 5), 6);
+            C.due("rule(" + i + ", 6)", C.x.rule(i, 6), 8);
+        }
+        C.act(0, RuleSentences.NONE, 0, due.toString());
+        C.of("2: TYPES and kinds are numbered apart");
+        C.good("A box is a kind of container. A bin is a kind of box. A box has a number called size. A bin has a text called label. Wa, wb, wc, wd, we and wf are a kind of value.");
+        C.due("kind(5, 0)", C.x.kind(5, 0), 2);
+        C.due("kind(6, 0)", C.x.kind(6, 0), 5);
+        C.due("kind(5, 1)", C.x.kind(5, 1), 2);
+        C.due("kind(6, 1)", C.x.kind(6, 1), 3);
     }
 
     private static void firstPlace() {
@@ -267,6 +312,7 @@ public final class LimitsTest {
         C.bad(5, all + "^Anna likes the bag and the tin.");
         C.good(all + "Anna and Bert like the bag. Anna likes the bag.");
         C.bad(5, all + "Anna owns the bag. ^Bert owns the bag.");
+        C.bad(5, all + "The player owns the bag. ^Bert owns the bag.");
         C.bad(5, all + "^The Anna and Bert own the bag.");
         C.good(all + "Anna owns the bag and the tin. Anna owns the bag. Bert owns Bert.");
     }

@@ -100,6 +100,8 @@ public final class MeaningsTest {
         C.bad(4, WORLD + "The ^tint of the lamp is red.");
         C.bad(4, WORLD + "The ^red of the lamp is red.");
         C.bad(4, WORLD + "The tint of the ^boxs is red.");
+        C.bad(4, WORLD + "The ^tint of a thing is red.");
+        C.bad(4, WORLD + "The ^tint of a room is red.");
         C.bad(4, WORLD + "The tint of the ^crate is red.");
         C.bad(4, WORLD + "The ^crate of the crate is red.");
         C.bad(4, WORLD + "The tint of the chest is ^5.");
@@ -153,6 +155,9 @@ public final class MeaningsTest {
         C.bad(4, WORLD + "The ^bag is frob.");
         C.bad(4, WORLD + "The lamp is ^frob.");
         C.bad(4, WORLD + "The lamp is ^open.");
+        C.bad(4, WORLD + "Lamp is ^open.");
+        C.bad(4, WORLD + "Lamp and the chest are ^open.");
+        C.bad(4, WORLD + "Chest and lamp are ^open.");
         C.bad(4, WORLD + "The lamp is ^thing.");
         C.bad(4, WORLD + "The lamp is ^things.");
         C.bad(4, WORLD + "The lamp are not ^things.");
@@ -194,6 +199,19 @@ public final class MeaningsTest {
         C.bad(4, WORLD + "^The a Anna likes the lamp.");
         C.bad(4, WORLD + "^Anna likes the lamp,.");
         C.bad(4, WORLD + "^Anna loves the lamp.");
+        C.bad(4, WORLD + "^Anna, Anna the Anna like the lamp.");
+        C.bad(4, WORLD + "^Anna, Anna like the lamp the lamp.");
+        C.bad(4, WORLD + "^Anna, Anna like the lamp a.");
+        String boxes = "Sorting relates one supporter to one box. The verb to sort means the sorting relation. The desk is a supporter. The player is on the desk. ";
+        C.good(WORLD + boxes + "The desk sorts the chest.");
+        C.bad(4, WORLD + boxes + "^The desk sorts the lamp.");
+        C.bad(4, WORLD + boxes + "^The chest sorts the chest.");
+        C.bad(4, WORLD + boxes + "^The desk, lamp sort the chest.");
+        C.good(WORLD + "Nearing relates various rooms to various rooms. The verb to near means the nearing relation. The hall nears the hall.");
+        C.bad(4, WORLD + "Nearing relates various rooms to various rooms. The verb to near means the nearing relation. ^The hall nears Anna.");
+        C.bad(4, WORLD + boxes + "Every turn when ^the desk sorts the lamp: stop.");
+        C.bad(4, WORLD + boxes + "Every turn when ^the lamp sorts the chest: stop.");
+        C.good(WORLD + boxes + "Every turn when the desk sorts the chest: now the desk sorts the chest.");
         C.good(WORLD + "The player, and Anna like the lamp.");
         C.good(WORLD + "Anna likes a lamp and lamp.");
     }
@@ -217,6 +235,8 @@ public final class MeaningsTest {
         C.bad(4, WORLD + "Before ^going north: stop.");
         C.bad(4, WORLD + "Before ^frob the lamp: stop.");
         C.bad(4, WORLD + "Before singing the ^lamp: stop.");
+        C.bad(4, WORLD + "Before singing a ^thing: stop.");
+        C.bad(4, WORLD + "Before singing an ^open box: stop.");
         C.bad(4, WORLD + "Before taking the ^hall: stop.");
         C.bad(4, WORLD + "Before taking a ^room: stop.");
         C.bad(4, WORLD + "Before taking a ^boxs: stop.");
@@ -231,6 +251,13 @@ public final class MeaningsTest {
         String taking = WORLD + "Before taking when ";
         C.bad(4, taking + "^it is fixed: stop.");
         C.bad(4, WORLD + "Every turn when ^the noun is fixed: stop.");
+        C.bad(4, WORLD + "Before taking when the noun is fixed: stop. Every turn when ^the noun is fixed: stop.");
+        C.bad(4, WORLD + "Before taking when the noun is fixed: stop. Before singing when ^the noun is fixed: stop.");
+        C.bad(4, WORLD + "Before taking when the noun is fixed: stop. Before going when ^noun is fixed: stop.");
+        C.bad(4, WORLD + "Definition: a thing is odd if it is fixed. Every turn when ^it is fixed: stop.");
+        C.bad(4, WORLD + "Definition: a thing is odd if it is fixed. Before taking when ^it is fixed: stop.");
+        C.bad(4, WORLD + "Before taking when noun is fixed: stop. Definition: a thing is odd if ^noun is fixed.");
+        C.bad(4, WORLD + "Before taking a box when noun is open: stop. Before taking when noun is ^open: stop.");
         C.bad(4, WORLD + "Before singing when ^noun is fixed: stop.");
         C.bad(4, WORLD + "Before going when ^noun is fixed: stop.");
         C.bad(4, taking + "the ^box is fixed: stop.");
@@ -284,10 +311,16 @@ public final class MeaningsTest {
     }
 
     private static void readings() {
-        C.of("3: 7 two READINGS or more");
         String both = "A box can be open or shut. Colour is a kind of value. Colour is red. A box has a colour called tint."
             + " A box has a colour called trim. The chest is a box. A thing has a colour called glow. ";
         String box = "A box is a kind. ";
+        C.of("2: .. a property that it has: each by its own kind");
+        C.good("A box is a kind. A bin is a kind. Colour is a kind of value. Colour is red, blue. A box has a colour called tint. A bin has a colour called trim. The tin is a box."
+            + " The pot is a bin. The lid is a box. Tin, pot and lid are blue.");
+        C.due("tint of the tin", C.x.property(1, 1), 1);
+        C.due("trim of the pot", C.x.property(2, 2), 1);
+        C.due("tint of the lid", C.x.property(3, 1), 1);
+        C.of("3: 7 two READINGS or more");
         C.bad(7, box + both + "The bag is a ^red box.");
         C.bad(7, box + both + "The chest is ^red.");
         C.bad(4, box + both + "The hall is a room. The chest and the hall are ^red.");
@@ -303,6 +336,9 @@ public final class MeaningsTest {
         C.good(parts + "The bag is a big old thing. The tin is an old so fixed thing.");
         C.bad(4, parts + "The bag is an ^odd odd odd odd odd odd thing.");
         C.of("2: words of one to three: the ways to part a RUN");
+        C.good("A thing can be old big or tiny. A thing can be big or small. Definition: a thing is old if it is fixed. The tin is an old big thing.");
+        C.due("the tin is old big", C.x.is(1, 2), 1);
+        C.due("the tin is not big", C.x.is(1, 4), 0);
         C.good("A thing can be old or new. A thing can be very old or very new. The tin is a very old thing. The bag is an old very new thing.");
         C.due("the tin is very old", C.x.is(1, 4), 1);
         C.due("the tin is not old", C.x.is(1, 2), 0);

@@ -139,6 +139,9 @@ public final class SentencesTest {
         C.due("as it stands", C.text(1, 0), "[ ~;.");
         C.of("1: each up to a . (behind the TEXT of 0 it may lack)");
         C.good(hall + "\"x\".The yard is a room.\"y\"The den is a room.", 5);
+        C.good(hall + "\"x\".Yard is a room.\"y\"Den is a room.\"z\"", 6);
+        C.due("the yard", C.name(2, 2), "yard");
+        C.due("the den", C.name(2, 3), "den");
         C.good(hall + "\"x\" [.] . \"x\" [.]", 3);
         C.bad(2, hall + "\"x\" ^is a room.");
         C.bad(1, hall + "\"x\" ^$ .");

@@ -8,6 +8,7 @@ public final class WorldTest {
         objects();
         adjectives();
         defined();
+        definedAnew();
         placeTests();
         properties();
         ways();
@@ -140,6 +141,43 @@ public final class WorldTest {
         C.due("the player is not odd, eight deep", C.x.is(0, 10), 1);
         C.due("the tin is odd", C.x.is(1, 10), 1);
         C.due("the tin is even", C.x.is(1, 11), 0);
+    }
+
+    /** What DEFINED adjectives are asked of changes, and so do they. */
+    private static void definedAnew() {
+        C.of("4: A DEFINED adjective holds, when .. all its TESTS hold for it (then)");
+        C.good("A thing has a number called weight. The tin is a thing. Definition: a thing is big if the weight of it is more than 1. Definition: a thing is huge if it is big"
+            + " and the weight of it is more than 2. Definition: a thing is odd if it is big and the player is not big and it is big and tin is big and player is not big."
+            + " Before taking: increase the weight of noun by 1. Before dropping: decrease the weight of noun by 1. Before examining: increase the weight of noun by 1; try waiting;"
+            + " decrease the weight of noun by 2; try waiting. Before waiting when the tin is big: say \"big\". Before waiting when the tin is not big: say \"not big\"."
+            + " Before waiting when the tin is huge: say \"huge\".");
+        int[] big = {0, 0, 1, 1, 1};
+        int[] huge = {0, 0, 0, 1, 1};
+        for (int n = 0; n < 5; n++) {
+            C.due("big at " + n, C.x.is(1, 2), big[n]);
+            C.due("huge at " + n, C.x.is(1, 3), huge[n]);
+            C.due("odd at " + n, C.x.is(1, 4), big[n]);
+            C.due("the player is not big", C.x.is(0, 2), 0);
+            C.due("nor odd", C.x.is(0, 4), 0);
+            C.x.act(1, 1);
+        }
+        for (int n = 5; n >= 0; n--) {
+            C.due("big at " + n, C.x.is(1, 2), n > 1 ? 1 : 0);
+            C.due("huge at " + n, C.x.is(1, 3), n > 2 ? 1 : 0);
+            C.due("odd at " + n, C.x.is(1, 4), n > 1 ? 1 : 0);
+            C.x.act(2, 1);
+        }
+        C.act(0, NONE, 0, "not big\n");
+        C.x.act(1, 1);
+        C.x.act(1, 1);
+        C.act(3, 1, 0, "big\nnot big\n\n");
+        C.x.act(1, 1);
+        C.x.act(1, 1);
+        C.act(3, 1, 0, "big\nhuge\nnot big\n\n");
+        C.x.act(1, 1);
+        C.x.act(1, 1);
+        C.x.act(1, 1);
+        C.act(3, 1, 0, "big\nhuge\nbig\nhuge\n\n");
     }
 
     private static void placeTests() {
