@@ -330,6 +330,16 @@ public final class ActsTest {
         C.good(story.replace("the tin is @", "the tin owns the bag"));
         C.x.act(WAIT, NONE);
         unchanged(0, 0, 0);
+        C.good(story.replace("the tin is @", "the bag owns the bag").replace("The tin owns the bag.", ""));
+        C.x.act(WAIT, NONE);
+        C.due("the bag owns the bag", C.x.related(1, 2, 2), true);
+        C.place(2, 0, NONE);
+        C.good("The hall is a room. The tin is a thing. The bag is a container. Liking relates various things to one thing. The verb to like means the liking relation."
+            + " Instead of waiting: now the tin likes the bag.");
+        C.x.act(WAIT, NONE);
+        C.due("the tin likes the bag", C.x.related(0, 2, 3), true);
+        C.place(2, 0, NONE);
+        C.place(3, 0, NONE);
         C.good(story.replace("now the tin is @", "move the tin to the bag; increase the weight of tin by 0; decrease the weight of tin by 0"));
         C.x.act(WAIT, NONE);
         unchanged(0, 0, 0);

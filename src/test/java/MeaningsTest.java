@@ -357,8 +357,12 @@ public final class MeaningsTest {
         C.due("an adjective of three words", C.x.is(1, 2), 1);
         C.due("an adjective of one word", C.x.is(2, 0), 1);
         C.bad(4, "Very big box is a kind. A thing can be so very old or new. The tin is a ^so very old fixed very big box.");
-        C.good("A box is a kind. A red box is a kind. A box can be red or blue. A box can be odd or even. The tin is an odd red box.");
+        C.good("A box is a kind. A red box is a kind. A box can be red or blue. A box can be odd or even. A box can be new or used."
+            + " The tin is an odd new red box.");
         C.due("one kind has a READING", C.x.object(1, 0), 5);
+        C.due("odd", C.x.is(1, 4), 1);
+        C.due("new", C.x.is(1, 6), 1);
+        C.due("red", C.x.is(1, 2), 1);
         C.of("2: 3 to 5 .. the last RUN an object of it, or a DESCRIPTION .. Without, READINGS: the RUN is an action; or an action of a kind and an object");
         C.bad(7, parts + "The big thing is a thing. Before taking the ^big thing: stop.");
         C.bad(7, "Rub and rub hot are an action applying to one thing. Hot tin and tin are a thing. Before ^rub hot tin: stop.");

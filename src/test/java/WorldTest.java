@@ -9,6 +9,7 @@ public final class WorldTest {
         adjectives();
         defined();
         definedAnew();
+        definedAlone();
         placeTests();
         properties();
         ways();
@@ -178,6 +179,20 @@ public final class WorldTest {
         C.x.act(1, 1);
         C.x.act(1, 1);
         C.act(3, 1, 0, "big\nhuge\nbig\nhuge\n\n");
+    }
+
+    private static void definedAlone() {
+        C.of("4: A DEFINED adjective holds, when .. all its TESTS hold for it (then; no other one is asked)");
+        C.good("The tin is a thing. Definition: a thing is loose if it is portable. Before waiting: now the tin is fixed. Before examining: now the tin is portable."
+            + " Before dropping when the tin is loose: say \"loose\". Before dropping when the tin is not loose: say \"stuck\".");
+        for (int i = 0; i < 3; i++) {
+            C.due("loose", C.x.is(1, 2), 1);
+            C.act(2, 1, 3, "loose\n");
+            C.x.act(0, NONE);
+            C.due("not loose", C.x.is(1, 2), 0);
+            C.act(2, 1, 3, "stuck\n");
+            C.x.act(3, 1);
+        }
     }
 
     private static void placeTests() {
