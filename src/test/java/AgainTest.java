@@ -3,8 +3,8 @@ public final class AgainTest {
     private static final Checks C = new Checks();
     private static final int NONE = RuleSentences.NONE;
     private static final String FIRST = "The plural of thing is very many things. The plural of people is so very many. The hall is a room. \"Hall.\" The yard is north of the hall."
-        + " The den is west of yard. A very old box is a kind of container. A box is a kind. A man is a kind of person. Colour is a kind of value. Mood is a kind of value."
-        + " Colours are red, green, blue. Mood is sad. A thing can be old or new. A room can be lit or dark. A room has a colour called paint. A container has a number called size."
+        + " The den is west of yard. A very old box is a kind of container. A box is a kind. A very old box has a number called depth. A man is a kind of person. Colour is a kind of value. Mood is a kind of value."
+        + " Colours are red, green, blue. Mood is sad. A thing can be old or new. A room can be lit or dark. A room has a colour called paint. A container has a number called size. A box has a number called depth."
         + " A thing has a mood called mind. A thing is usually fixed. A thing is usually old. The paint of room is blue. The size of container is 7. The description of thing is \"Thing.\""
         + ". The tin is a portable container in the hall. The pot is a fixed new container in the tin. The lid is part of the pot. The player is in the yard."
         + " Liking relates one thing to one thing. Owning relates one room to one room. The verb to like means the owning relation. The verb to own means the liking relation."
@@ -34,6 +34,7 @@ public final class AgainTest {
         }
         asNew("The hall is a frob.", SECOND[0]);
         fullAgain();
+        manyClauses();
         staleTape();
         C.end("AgainTest");
     }
@@ -126,6 +127,19 @@ public final class AgainTest {
                 C.again(story, due);
             }
         }
+    }
+
+    /** TESTS and PHRASES of old worlds take no room of new ones: as many as 512 calls can tell. */
+    private static void manyClauses() {
+        String rule = "Every turn:" + Checks.times("stop;", 7) + "stop.";
+        C.fresh();
+        for (int i = 0; i < 3; i++) {
+            C.feed(Checks.times(rule, 24));
+            C.due("read() of 24 full rules", C.x.read(), 24);
+        }
+        C.feed(Checks.times(rule, 3) + "Every turn:say\"a\";say\"b\".");
+        C.due("read() behind them", C.x.read(), 4);
+        C.act(0, NONE, 0, "a\nb\n");
     }
 
     /** What stood on the TAPE is no part of a shorter one. */

@@ -94,7 +94,9 @@ public final class CommandsTest {
         C.good(rub + "\"[thing] a b c d e f g\" as taking. Understand \"a b c d e f g [thing]\" as taking.");
         C.due("first of eight", C.command("player a b c d e f g"), 2);
         C.due("last of eight", C.command("a b c d e f g player"), 2);
-        C.due("none", C.command("a b c d e f g"), -2);
+        for (String t : new String[] {"a b c d e f g", "a", "g", "", "player", "player a", "player g", "a player", "b c d e f g"}) {
+            C.due("command <" + t + ">", C.command(t), -2);
+        }
         C.bad(8, rub + "^\"a b c d e f g h [thing]\" as taking.");
         C.bad(8, rub + "^\"[thing] a b c d e f g h\" as taking.");
         C.bad(8, rub + "^\"[thing] [thing]\" as taking.");

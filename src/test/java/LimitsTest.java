@@ -266,6 +266,10 @@ public final class LimitsTest {
         C.bad(5, box + "The bag is open. The tin and the ^bag are shut.");
         C.bad(5, box + "The bag is not open. The ^bag is open.");
         C.bad(5, box + "The bag is shut. The ^bag is not shut.");
+        C.bad(5, box + "The bag is not open. The ^bag is not shut.");
+        C.bad(5, box + "The bag is not shut. The ^bag is not open.");
+        C.bad(5, box + "The bag is not shut. The ^bag is shut.");
+        C.good(box + "The bag is not shut. The bag is open. The bag is not shut.");
         C.good(box + "The bag is shut. The bag is not open. The bag is a shut box. The tin is open.");
         C.bad(5, box + "The bag is red. The ^bag is blue.");
         C.bad(5, box + "The bag is red. The tint of the ^bag is blue.");

@@ -44,6 +44,7 @@ public final class MeaningsTest {
         C.bad(3, WORLD + "The verb to ^likes means the liking relation.");
         C.bad(3, WORLD + "The verb to ^really love means the liking relation.");
         C.bad(3, WORLD + "The verb to ^thing means the liking relation.");
+        C.bad(3, "Red bin is a kind. Liking relates one thing to one thing. Pens is a kind. The verb to ^pen means the liking relation.");
         C.bad(3, "Liking relates one thing to one thing. Pens is a kind. The verb to ^pen means the liking relation.");
         C.of("2: 8 a kind or TYPE, or their plural; NEW: its plural");
         C.bad(3, "The plural of thing is ^things.");
@@ -109,6 +110,12 @@ public final class MeaningsTest {
         C.bad(4, WORLD + "The tint of the chest is ^open.");
         C.bad(4, WORLD + "Mood is a kind of value. Mood is sad. The tint of the chest is ^sad.");
         C.bad(4, WORLD + "The weight of the chest is ^red.");
+        C.bad(4, WORLD + "Colour is won two three. The tint of the chest is ^won two three four.");
+        C.bad(4, WORLD + "Colour is won two three. The tint of the chest is ^won two.");
+        C.bad(4, WORLD + "Colour is dark pink. The tint of the chest is ^dark pink red.");
+        C.good(WORLD + "Colour is won two three. The tint of the chest is won two three.");
+        C.bad(4, WORLD + "The description of the ^number is \"x\".");
+        C.bad(4, WORLD + "The description of the ^colour is \"x\".");
         C.bad(4, WORLD + "The description of the chest is ^5.");
         C.good(WORLD + "The tint of the chest is red. The weight of a box are 5. The description of the hall is \"x\".");
     }
